@@ -242,40 +242,47 @@ public final class FourTongues {
     /** What the NUMBERS of each TONGUE are, and what signs make of them. */
     private static final class Numbers {
         private static final long HUNDRED_PETA = 100000000000000000L;
-        private static final double TWO_TO_63 = 9223372036854775808.0;
-        private static final double GREATEST = 1.7976931348623157E308;
-        private static final double TWO_TO_52 = 4503599627370496.0;
+        private static final long LEAST_LONG = -9223372036854775808L;
+        private static final long MOST_LONG = 9223372036854775807L;
 
         static long least(int tongue) {
             if (tongue == CODES) {
-                return Integer.MIN_VALUE;
+                return -2147483648L;
             }
-            return tongue == VALUES ? -HUNDRED_PETA : Long.MIN_VALUE;
+            return tongue == VALUES ? -HUNDRED_PETA : LEAST_LONG;
         }
 
         static long most(int tongue) {
             if (tongue == CODES) {
-                return Integer.MAX_VALUE;
+                return 2147483647L;
             }
-            return tongue == VALUES ? HUNDRED_PETA : Long.MAX_VALUE;
+            return tongue == VALUES ? HUNDRED_PETA : MOST_LONG;
+        }
+
+        private static double twoTo63() {
+            return 9223372036854775808.0;
+        }
+
+        private static double greatest() {
+            return 1.7976931348623157E308;
         }
 
         /** Whether the TONGUE has this very whole. */
         static boolean has(int tongue, long whole) {
             if (tongue == EXITS) {
                 double near = (double) whole;
-                return near < TWO_TO_63 && (long) near == whole;
+                return near < twoTo63() && (long) near == whole;
             }
             return whole >= least(tongue) && whole <= most(tongue);
         }
 
         /** Whether a long is this very double. */
         static boolean isWhole(double real) {
-            return real >= -TWO_TO_63 && real < TWO_TO_63 && (double) (long) real == real;
+            return real >= -twoTo63() && real < twoTo63() && (double) (long) real == real;
         }
 
         static boolean isFinite(double real) {
-            return real >= -GREATEST && real <= GREATEST;
+            return real >= -greatest() && real <= greatest();
         }
 
         /** Whether the sign's outcome lies beyond the TONGUE's wholes; a divisor isn't 0. */
@@ -320,7 +327,7 @@ public final class FourTongues {
                 return x;
             }
             int doubled = 0;
-            while (doubled < 2200 && part <= GREATEST / 2 && part * 2 <= left) {
+            while (doubled < 2200 && part <= greatest() / 2 && part * 2 <= left) {
                 part = part * 2;
                 doubled++;
             }
@@ -357,9 +364,9 @@ public final class FourTongues {
         static long bits(double real) {
             if (real == 0) {
                 // only a quotient tells the two zeros apart
-                return 1.0 / real < 0 ? Long.MIN_VALUE : 0;
+                return 1.0 / real < 0 ? LEAST_LONG : 0;
             }
-            long sign = real < 0 ? Long.MIN_VALUE : 0;
+            long sign = real < 0 ? LEAST_LONG : 0;
             double scaled = real < 0 ? -real : real;
             int power = 0;
             for (int i = 0; i < 1100 && scaled >= 2; i++) {
@@ -370,7 +377,7 @@ public final class FourTongues {
                 scaled = scaled * 2;
                 power--;
             }
-            long digits = (long) (scaled * TWO_TO_52);
+            long digits = (long) (scaled * 4503599627370496.0);
             if (power < -1022) {
                 return sign | digits >> (-1022 - power);
             }
@@ -546,21 +553,10 @@ public final class FourTongues {
                 return true;
             }
             int rule = rules[border(from, to)];
-            if (from == EXITS) {
-                return turnReal(row, i, to, rule);
-            }
-            long whole = row.whole(i);
-            if (rule == 0 && !Numbers.has(to, whole)) {
-                return false;
-            }
-            setTurned(row, i, to, rule, whole);
-            return true;
-        }
-
-        private boolean turnReal(Row row, int i, int to, int rule) {
-            double real = row.real(i);
-            long whole = (long) real;
-            if (rule == 0 && !(Numbers.isWhole(real) && Numbers.has(to, whole))) {
+            boolean isReal = from == EXITS;
+            long whole = isReal ? (long) row.real(i) : row.whole(i);
+            boolean isExact = !isReal || Numbers.isWhole(row.real(i));
+            if (rule == 0 && !(isExact && Numbers.has(to, whole))) {
                 return false;
             }
             setTurned(row, i, to, rule, whole);
@@ -633,13 +629,19 @@ public final class FourTongues {
 
         private final byte[] text;
         private final long[] words = new long[WORD_COUNT];
+        private final int[] kinds = new int[TAPE_MOST + 1];
+        private final int[] places = new int[TAPE_MOST + 1];
+        private final long[] wholes = new long[TAPE_MOST + 1];
+        private final double[] reals = new double[TAPE_MOST + 1];
+        private int count = 0;
         private int length = 0;
         private int tongue = 0;
         private int at = 0;
+        private int now = 0;
         private boolean stopped = false;
+        // of the TOKEN at hand; whole is a NAME's letters, too
         private int kind = END;
         private int place = 0;
-        private long name = 0;
         private long whole = 0;
         private double real = 0.0;
 
@@ -659,12 +661,37 @@ public final class FourTongues {
             }
         }
 
+        /** Finds all TOKENS, up to the end or one that is WRONG, and goes to the first. */
         void begin(int ofTongue, int bytes) {
             tongue = ofTongue;
             length = Math.min(bytes, text.length);
             at = 0;
+            count = 0;
+            kind = NAME;
+            while (count <= TAPE_MOST && kind != END && kind != WRONG) {
+                readToken();
+                kinds[count] = kind;
+                places[count] = place;
+                wholes[count] = whole;
+                reals[count] = real;
+                count++;
+            }
             stopped = false;
+            now = -1;
             next();
+        }
+
+        void next() {
+            if (stopped) {
+                return;
+            }
+            if (now < count - 1) {
+                now++;
+            }
+            kind = kinds[now];
+            place = places[now];
+            whole = wholes[now];
+            real = reals[now];
         }
 
         /** From now on there is only a TOKEN that fits nowhere, so that every loop of the parser ends. */
@@ -673,14 +700,12 @@ public final class FourTongues {
             kind = WRONG;
         }
 
-        void next() {
-            if (stopped) {
-                return;
-            }
+        private void readToken() {
             while (at < length && (byteAt(at) == 32 || byteAt(at) == 10)) {
                 at++;
             }
             place = at;
+            whole = 0;
             int c = byteAt(at);
             if (c < 0) {
                 kind = END;
@@ -706,10 +731,9 @@ public final class FourTongues {
         }
 
         private void readName() {
-            name = 0;
             int letters = 0;
             while (at < length && (isLetter(byteAt(at)) || isDigit(byteAt(at)))) {
-                name = name << 8 | byteAt(at);
+                whole = whole << 8 | byteAt(at);
                 letters++;
                 at++;
             }
@@ -718,7 +742,7 @@ public final class FourTongues {
 
         private int wordOrName() {
             for (int i = 0; i < WORD_COUNT; i++) {
-                if (words[i] == name) {
+                if (words[i] == whole) {
                     return KIND + i;
                 }
             }
@@ -727,7 +751,6 @@ public final class FourTongues {
 
         private void readNumber() {
             kind = NUMBER;
-            whole = 0;
             if (tongue == EXITS) {
                 readReal();
                 return;
@@ -998,19 +1021,15 @@ public final class FourTongues {
             Arrays.fill(faults, -1);
             tokens.begin(ofTongue, bytes);
             for (int i = 0; i < TAPE_MOST && tokens.kind != Tokens.END && tokens.kind != Tokens.WRONG; i++) {
-                partOfText();
+                if (took(Tokens.FN)) {
+                    function();
+                } else if (tongue == THROWS && took(Tokens.KIND)) {
+                    kindUnder();
+                } else {
+                    wrong();
+                }
             }
             if (tokens.kind == Tokens.WRONG) {
-                wrong();
-            }
-        }
-
-        private void partOfText() {
-            if (took(Tokens.FN)) {
-                function();
-            } else if (tongue == THROWS && took(Tokens.KIND)) {
-                kindUnder();
-            } else {
                 wrong();
             }
         }
@@ -1036,7 +1055,9 @@ public final class FourTongues {
         }
 
         private void need(int kind) {
-            if (!took(kind)) {
+            if (tokens.kind == kind) {
+                tokens.next();
+            } else {
                 wrong();
             }
         }
@@ -1088,7 +1109,7 @@ public final class FourTongues {
         }
 
         private int nameOfFailing() {
-            long name = tokens.name;
+            long name = tokens.whole;
             int at = tokens.place;
             need(Tokens.NAME);
             int number = names.numberOf(name);
@@ -1099,7 +1120,7 @@ public final class FourTongues {
         }
 
         private void function() {
-            long name = tokens.name;
+            long name = tokens.whole;
             int at = tokens.place;
             need(Tokens.NAME);
             told++;
@@ -1133,7 +1154,7 @@ public final class FourTongues {
         }
 
         private void parameter() {
-            long name = tokens.name;
+            long name = tokens.whole;
             int at = tokens.place;
             need(Tokens.NAME);
             counted++;
@@ -1231,7 +1252,7 @@ public final class FourTongues {
         }
 
         private void let() {
-            long name = tokens.name;
+            long name = tokens.whole;
             int at = tokens.place;
             need(Tokens.NAME);
             if (variable(name) < 0) {
@@ -1246,7 +1267,7 @@ public final class FourTongues {
         }
 
         private void nameFirst() {
-            long name = tokens.name;
+            long name = tokens.whole;
             int at = tokens.place;
             tokens.next();
             if (tokens.kind == '=') {
@@ -1346,7 +1367,7 @@ public final class FourTongues {
         }
 
         private int secondName() {
-            long name = tokens.name;
+            long name = tokens.whole;
             need(Tokens.NAME);
             return declare(name);
         }
@@ -1477,7 +1498,7 @@ public final class FourTongues {
         private void primary() {
             int kind = tokens.kind;
             if (kind == Tokens.NAME) {
-                long name = tokens.name;
+                long name = tokens.whole;
                 int at = tokens.place;
                 tokens.next();
                 afterName(name, at);
@@ -1497,7 +1518,7 @@ public final class FourTongues {
                 functionItself();
             } else if (isTongueWord()) {
                 int to = tongueWord();
-                long name = tokens.name;
+                long name = tokens.whole;
                 need(Tokens.NAME);
                 arguments(Program.CALL, to, name, -1);
             } else {
@@ -1547,7 +1568,7 @@ public final class FourTongues {
 
         private void functionItself() {
             int to = isTongueWord() ? tongueWord() : tongue;
-            long name = tokens.name;
+            long name = tokens.whole;
             need(Tokens.NAME);
             add(Program.FUNCTION, to, program.addConstant(Row.EMPTY, name, 0.0));
         }
@@ -1906,8 +1927,9 @@ public final class FourTongues {
 
         private static final int GOING = 0;
         private static final int CARRIED = 1;
-        private static final int LEFT = 2;
-        private static final int ENDED = 3;
+        private static final int CALL_FAILED = 2;
+        private static final int LEFT = 3;
+        private static final int ENDED = 4;
 
         private final Program[] programs;
         private final Names names;
@@ -1967,12 +1989,18 @@ public final class FourTongues {
             for (int i = 0; i < TURNS_MOST && state != ENDED; i++) {
                 if (state == CARRIED) {
                     carryOn();
+                } else if (state == CALL_FAILED) {
+                    goOnBehindCall();
                 } else if (state == LEFT) {
                     leaveFunction();
-                } else {
+                } else if (program.op(pc) < Program.JUMP) {
                     at = pc;
                     pc++;
                     workOut();
+                } else {
+                    at = pc;
+                    pc++;
+                    goElsewhere();
                 }
             }
             return tally[OUTCOME];
@@ -2039,11 +2067,13 @@ public final class FourTongues {
                 case Program.TAG: tagOfTop(); break;
                 case Program.BAD: failsWithTop(first); break;
                 case Program.CELL: pushNumber(CODES, tally[CELL]); break;
-                default: goElsewhere(first, second); break;
+                default: break;
             }
         }
 
-        private void goElsewhere(int first, int second) {
+        private void goElsewhere() {
+            int first = program.first(at);
+            int second = program.second(at);
             switch (program.op(at)) {
                 case Program.JUMP: pc = first; break;
                 case Program.QUESTION: question(first); break;
@@ -2206,11 +2236,9 @@ public final class FourTongues {
             backToCaller();
             if (from != frames.tongue()) {
                 turnFailure(f);
-            } else if (from == CODES) {
-                callLeftFailing(f);
             } else {
                 carried = f;
-                state = CARRIED;
+                state = from == CODES ? CALL_FAILED : CARRIED;
             }
         }
 
@@ -2236,17 +2264,17 @@ public final class FourTongues {
             if (!borders.turn(values, g, from, to)) {
                 values.set(g, Row.EMPTY, 0, 0.0);
             }
+            give(g);
             if (to == CODES) {
-                callLeftFailing(g);
-            } else {
-                give(g);
+                state = CALL_FAILED;
             }
         }
 
-        /** In CODES a call that fails goes on with none, if no on is there. */
-        private void callLeftFailing(int f) {
-            tally[CELL] = failures.fact(f, Failures.WHAT);
-            if (!isHeld(f)) {
+        /** In CODES a call that fails leaves none in its place, if no on is there. */
+        private void goOnBehindCall() {
+            state = GOING;
+            tally[CELL] = failures.fact(carried, Failures.WHAT);
+            if (!isHeld(carried)) {
                 stack.push(Row.EMPTY, 0, 0.0);
             }
         }

@@ -1,0 +1,428 @@
+import java.util.Random;
+
+/** Holds FourTongues against the Model, on texts and calls drawn with fixed seeds. */
+public final class FuzzTest {
+    private static final String[] FUNCTIONS = {"f", "g", "h", "k"};
+    private static final String[] VARIABLES = {"a", "b", "c", "d"};
+    private static final String[] NAMES = {"zero", "index", "nothing", "sort", "deep", "trap", "lost", "border", "any", "machine",
+        "oops", "foo", "bar", "baz"};
+    private static final String[] TONGUES = {"throws", "codes", "values", "exits"};
+    private static final String[][] NUMBERS = {
+        {"0", "1", "2", "3", "7", "9223372036854775807", "100000000000000001", "4294967297", "9007199254740993"},
+        {"0", "1", "2", "3", "7", "2147483647", "65536"},
+        {"0", "1", "2", "3", "7", "100000000000000000", "2147483648", "9007199254740993"},
+        {"0", "1", "2", "3", "0.5", "7", "999999999999999", "0.00000000000001", "2.25", "99999999999.1"}};
+    private static final String JUNK = "{}()[],;.&!=<>+-*/%~ \nabx09";
+
+    private final Random random;
+    private final StringBuilder text = new StringBuilder();
+    private int tongue;
+    private int depth;
+    private int wrong = 0;
+    private final StringBuilder log = new StringBuilder();
+
+    private FuzzTest(long seed) {
+        random = new Random(seed);
+    }
+
+    public static void main(String[] args) {
+        int from = args.length > 0 ? Integer.parseInt(args[0]) : 0;
+        int to = args.length > 1 ? Integer.parseInt(args[1]) : 3000;
+        int wrong = 0;
+        for (int seed = from; seed < to && wrong == 0; seed++) {
+            FuzzTest test = new FuzzTest(seed);
+            try {
+                test.house();
+            } catch (RuntimeException e) {
+                test.wrong++;
+                e.printStackTrace(System.out);
+            }
+            if (test.wrong > 0) {
+                wrong++;
+                System.out.println("seed " + seed + "\n" + test.log);
+            }
+        }
+        if (args.length > 2) {
+            System.out.println(java.util.Arrays.toString(SEEN));
+        }
+        if (wrong > 0) {
+            System.exit(1);
+        }
+        System.out.println("FuzzTest: as the model has it");
+    }
+
+    static final long[] SEEN = new long[24];
+
+    private int upTo(int n) {
+        return random.nextInt(n);
+    }
+
+    private String one(String[] of) {
+        return of[upTo(of.length)];
+    }
+
+    private void put(String s) {
+        text.append(s).append(upTo(30) == 0 ? "\n " : " ");
+    }
+
+    private void due(String what, long got, long want) {
+        if (got != want) {
+            wrong++;
+            log.append("  WRONG ").append(what).append(" answered ").append(got).append(", due is ").append(want).append('\n');
+        }
+    }
+
+    private void house() {
+        FourTongues x = new FourTongues();
+        Model m = new Model();
+        int rounds = 1 + upTo(3);
+        for (int r = 0; r < rounds && wrong == 0; r++) {
+            for (int t = 0; t < 4; t++) {
+                if (r == 0 || upTo(3) == 0) {
+                    take(x, m, t);
+                }
+            }
+            borders(x, m);
+            int calls = 2 + upTo(6);
+            for (int i = 0; i < calls && wrong == 0; i++) {
+                run(x, m);
+            }
+        }
+    }
+
+    private void borders(FourTongues x, Model m) {
+        int n = upTo(14);
+        for (int i = 0; i < n; i++) {
+            int from = upTo(5) - (upTo(20) == 0 ? 1 : 0);
+            int to = upTo(4);
+            int rule = upTo(upTo(10) == 0 ? 5 : 3) - (upTo(20) == 0 ? 1 : 0);
+            log.append("rule ").append(from).append(' ').append(to).append(' ').append(rule).append('\n');
+            due("rule", x.rule(from, to, rule) ? 1 : 0, m.rule(from, to, rule) ? 1 : 0);
+        }
+        n = upTo(upTo(20) == 0 ? 150 : 14);
+        for (int i = 0; i < n; i++) {
+            int from = upTo(5) - (upTo(20) == 0 ? 1 : 0);
+            int to = upTo(4);
+            int what = upTo(17) - (upTo(5) == 0 ? 2 : 0);
+            int as = upTo(16);
+            log.append("entry ").append(from).append(' ').append(to).append(' ').append(what).append(' ').append(as).append('\n');
+            due("entry", x.entry(from, to, what, as) ? 1 : 0, m.entry(from, to, what, as) ? 1 : 0);
+        }
+    }
+
+    private void run(FourTongues x, Model m) {
+        long[] numbers = {0, 1, 2, 3, 5, -1, 9, 4294967296L, Long.MAX_VALUE, Long.MIN_VALUE, 9007199254740993L, 100000000000000000L,
+            -100000000000000001L, 2147483647, -2147483648L, Long.MAX_VALUE - 1023};
+        int t = upTo(4);
+        int f = upTo(upTo(9) == 0 ? 5 : Math.max(1, m.texts.get(t).size()));
+        long a = upTo(3) == 0 ? numbers[upTo(numbers.length)] : upTo(6);
+        log.append("call ").append(t).append(' ').append(f).append(' ').append(a).append('\n');
+        int got = x.call(t, f, a);
+        due("call", got, m.call(t, f, a));
+        SEEN[got]++;
+        for (int i = -1; i <= 11; i++) {
+            due("look " + i, x.look(i), m.look(i));
+        }
+        due("answer", x.answer(), m.answer());
+        for (int i = -1; i < 202 && i < m.look(3) + 2; i++) {
+            due("mark " + i, x.mark(i), m.mark(i));
+            due("markTongue " + i, x.markTongue(i), m.markTongue(i));
+        }
+        for (int i = -1; i < 6; i++) {
+            for (int what = -1; what < 9; what++) {
+                due("failure " + i + " " + what, x.failure(i, what), m.failure(i, what));
+                for (int k = -1; k < 3; k++) {
+                    due("under " + i + " " + k + " " + what, x.under(i, k, what), m.under(i, k, what));
+                }
+            }
+        }
+        count(m);
+    }
+
+    private static void count(Model m) {
+        SEEN[5] += m.look(5) > 0 ? 1 : 0;
+        SEEN[6] += m.look(6) > 0 ? 1 : 0;
+        SEEN[7] += m.look(7) == 24 ? 1 : 0;
+        SEEN[8] += m.failure(1, 0) >= 0 ? 1 : 0;
+        SEEN[9] += m.failure(2, 0) >= 0 ? 1 : 0;
+        SEEN[10] += m.under(0, 0, 0) >= 0 ? 1 : 0;
+        SEEN[11] += m.under(0, 1, 0) >= 0 ? 1 : 0;
+        SEEN[12] += m.look(4) > 0 ? 1 : 0;
+        SEEN[13 + m.look(1)]++;
+        SEEN[17] += m.look(2) > 20 ? 1 : 0;
+        int fails = m.failure(0, 1);
+        SEEN[18] += fails > 0 && fails < 10 && fails != 3 && fails != 4 ? 1 : 0;
+    }
+
+    private void take(FourTongues x, Model m, int t) {
+        tongue = t;
+        text.setLength(0);
+        makeText();
+        if (upTo(8) == 0) {
+            spoil();
+        }
+        if (text.length() > 2980) {
+            text.setLength(2980);
+        }
+        int n = text.length();
+        log.append("load ").append(t).append(' ').append(n).append('\n').append(text).append('\n');
+        while (text.length() % 20 != 0) {
+            text.append(' ');
+        }
+        for (int i = 0; i < text.length(); i += 20) {
+            int[] v = new int[5];
+            for (int k = 0; k < 20; k++) {
+                v[k / 4] = v[k / 4] << 8 | text.charAt(i + k) & 255;
+            }
+            due("feed", x.feed(v[0], v[1], v[2], v[3], v[4]), m.feed(v[0], v[1], v[2], v[3], v[4]));
+        }
+        int got = x.load(t, n);
+        due("load", got, m.load(t, n));
+        due("fault", x.fault(), m.fault());
+        SEEN[20 + x.fault()]++;
+        due("names", x.look(10), m.look(10));
+        for (int name = -1; name < 54; name++) {
+            for (int k = -1; k < 9; k++) {
+                due("letter", x.letter(name, k), m.letter(name, k));
+            }
+        }
+    }
+
+    private void spoil() {
+        int times = 1 + upTo(2);
+        for (int i = 0; i < times && text.length() > 0; i++) {
+            int at = upTo(text.length());
+            switch (upTo(5)) {
+                case 0: text.deleteCharAt(at); break;
+                case 1: text.insert(at, JUNK.charAt(upTo(JUNK.length()))); break;
+                case 2: text.setCharAt(at, JUNK.charAt(upTo(JUNK.length()))); break;
+                case 3: text.setLength(at); break;
+                default: text.setCharAt(at, (char) upTo(256)); break;
+            }
+        }
+    }
+
+    // ---- texts
+
+    private void makeText() {
+        int n = upTo(30) == 0 ? 35 + upTo(8) : 1 + upTo(5);
+        boolean many = n > 30;
+        for (int i = 0; i < n; i++) {
+            if (tongue == 0 && upTo(3) == 0) {
+                put("kind");
+                put(many ? name() + upTo(9) : upTo(20) > 0 ? NAMES[10 + upTo(4)] : name());
+                put("under");
+                put(upTo(6) > 0 ? NAMES[upTo(10)] : name());
+                put(";");
+            }
+            put("fn");
+            put(i < 4 && upTo(20) > 0 ? FUNCTIONS[i] : "z" + i);
+            put("(");
+            int parameters = 1 + (upTo(3) == 0 ? upTo(upTo(40) == 0 ? 5 : 4) : 0);
+            for (int k = 0; k < parameters; k++) {
+                put((k > 0 ? ", " : "") + (upTo(400) == 0 ? "a" : k < 4 ? VARIABLES[k] : "e"));
+            }
+            put(")");
+            depth = 1;
+            put("{");
+            if (upTo(150) > 0) {
+                declare(parameters, many);
+            }
+            int statements = many ? 1 : 1 + upTo(4);
+            for (int k = 0; k < statements; k++) {
+                statement();
+            }
+            if (upTo(3) > 0) {
+                put("return");
+                expression();
+                put(";");
+            }
+            put("}");
+        }
+    }
+
+    private void declare(int parameters, boolean many) {
+        for (int k = parameters; k < 4; k++) {
+            put("let " + VARIABLES[k] + " = " + (upTo(2) == 0 ? "none" : upTo(4) == 0 ? "new [ 3 ]" : upTo(9)) + " ;");
+        }
+        if (many && upTo(4) == 0) {
+            for (int k = 0; k < 9; k++) {
+                put("let v" + k + " = " + k + ";");
+            }
+        }
+    }
+
+    private String name() {
+        return one(NAMES);
+    }
+
+    private void block() {
+        depth++;
+        put("{");
+        int n = depth > 3 ? upTo(2) : upTo(8) == 0 ? 0 : 1 + upTo(2);
+        for (int i = 0; i < n; i++) {
+            statement();
+        }
+        put("}");
+        depth--;
+    }
+
+    private void statement() {
+        int kind = upTo(depth > 4 ? 6 : 17);
+        switch (kind) {
+            case 0: put("let " + one(VARIABLES) + " ="); expression(); put(";"); break;
+            case 1: put(one(VARIABLES) + " ="); expression(); put(";"); break;
+            case 2: put(one(VARIABLES)); put("["); expression(); put("] ="); expression(); put(";"); break;
+            case 3: put("mark"); expression(); put(";"); break;
+            case 4: expression(); put(";"); break;
+            case 5: put("mark " + one(NUMBERS[tongue]) + " ;"); break;
+            case 6: put("return"); expression(); put(";"); break;
+            case 7: put("if ("); expression(); put(")"); block(); if (upTo(2) == 0) { put("else"); block(); } break;
+            case 8: loop(); break;
+            case 9: put("let b = new ["); expression(); put("] ;"); break;
+            default: own(); break;
+        }
+    }
+
+    private void loop() {
+        if (upTo(8) == 0) {
+            put("while (");
+            expression();
+            put(")");
+            block();
+            return;
+        }
+        put("let c = " + (1 + upTo(5)) + " ; while ( c ) { c = c - 1 ;");
+        statement();
+        put("}");
+    }
+
+    private void own() {
+        switch (tongue) {
+            case 0:
+                if (upTo(3) == 0) {
+                    put("throw " + name());
+                    expression();
+                    put(";");
+                } else {
+                    tryCatch();
+                }
+                break;
+            case 1:
+                if (upTo(2) == 0) {
+                    put("fail");
+                    expression();
+                    put(";");
+                } else {
+                    put("on");
+                    block();
+                    put("go");
+                    block();
+                }
+                break;
+            case 2:
+                put("with");
+                block();
+                put("end");
+                block();
+                break;
+            default:
+                exits();
+                break;
+        }
+    }
+
+    private void tryCatch() {
+        put("try");
+        block();
+        int catches = upTo(3);
+        for (int i = 0; i < catches; i++) {
+            put("catch " + name() + " " + (upTo(4) == 0 ? "e" : one(VARIABLES)));
+            block();
+        }
+        if (catches == 0 && upTo(40) > 0 || upTo(2) == 0) {
+            put("finally");
+            block();
+        }
+    }
+
+    private void exits() {
+        int kind = upTo(3);
+        if (kind == 0) {
+            put("exit " + name());
+            expression();
+            put(";");
+        } else if (kind == 1) {
+            put("open " + name() + " " + (upTo(4) == 0 ? "e" : one(VARIABLES)));
+            block();
+            put("then");
+            block();
+        } else {
+            put("clean");
+            block();
+            put("do");
+            block();
+        }
+    }
+
+    private void expression() {
+        depth++;
+        int kind = upTo(depth > (upTo(300) == 0 ? 9 : 7) ? 4 : depth > 5 ? 5 : 24);
+        switch (kind) {
+            case 0: case 1: put(one(NUMBERS[tongue])); break;
+            case 2: case 3: put(one(VARIABLES)); break;
+            case 4: put(upTo(3) == 0 ? "none" : "1"); break;
+            case 5: case 6: expression(); put(one(new String[] {"+", "-", "*", "/", "%"})); expression(); break;
+            case 7: put("("); expression(); put(")"); break;
+            case 8: put("( a"); put(one(new String[] {"<", "<=", ">", ">=", "==", "!="})); expression(); put(")"); break;
+            case 9: put("-"); put(one(VARIABLES)); break;
+            case 10: put("new ["); put("" + upTo(5)); put("]"); break;
+            case 11: put("size ("); expression(); put(")"); break;
+            case 12: case 13: put(one(VARIABLES)); put("["); put("" + upTo(3)); put("]"); break;
+            case 14: put("& " + (upTo(2) == 0 ? one(TONGUES) + " . " : "") + one(FUNCTIONS)); break;
+            case 15: put(one(VARIABLES)); put("!"); arguments(); break;
+            case 16: case 17: case 18: put(one(FUNCTIONS)); arguments(); break;
+            case 19: case 20: case 21: case 22: put(one(TONGUES) + " . " + one(FUNCTIONS)); arguments(); break;
+            default: ownExpression(); break;
+        }
+        if (tongue == 2 && depth < 7 && upTo(9) == 0) {
+            put("else");
+            expression();
+        }
+        depth--;
+    }
+
+    private void arguments() {
+        put("(");
+        int n = upTo(300) == 0 ? 7 + upTo(4) : 1 + upTo(2);
+        for (int i = 0; i < n; i++) {
+            if (i > 0) {
+                put(",");
+            }
+            if (n > 4) {
+                put("1");
+            } else if (i == 0 && upTo(3) == 0) {
+                put("a - 1");
+            } else {
+                expression();
+            }
+        }
+        put(")");
+    }
+
+    private void ownExpression() {
+        if (tongue == 1) {
+            put("cell");
+        } else if (tongue == 2 && upTo(3) == 0) {
+            put("tag (");
+            expression();
+            put(")");
+        } else if (tongue == 2) {
+            put("bad " + name() + " (");
+            expression();
+            put(")");
+        } else {
+            put("- 2");
+        }
+    }
+}
