@@ -1,0 +1,131 @@
+/** A FourTongues with what the tests need around it: texts as Strings, and answers held against what is due. */
+final class House {
+    private static int wrong = 0;
+    private static int asked = 0;
+    final FourTongues x = new FourTongues();
+
+    /** The bytes of a text go onto the TAPE, with blanks up to the next 20. */
+    int feedText(String text) {
+        int fed = 0;
+        for (int i = 0; i < text.length(); i += 20) {
+            int[] v = new int[5];
+            for (int k = 0; k < 20; k++) {
+                int c = i + k < text.length() ? text.charAt(i + k) : ' ';
+                v[k / 4] = v[k / 4] << 8 | c;
+            }
+            fed = x.feed(v[0], v[1], v[2], v[3], v[4]);
+        }
+        return fed;
+    }
+
+    int take(int t, String text) {
+        feedText(text);
+        return x.load(t, text.length());
+    }
+
+    /** A text that is to be taken. */
+    House with(int t, String text) {
+        int got = take(t, text);
+        if (got < 0) {
+            due("load of " + text, got, 1);
+        }
+        return this;
+    }
+
+    /** A text that has a FAULT of this kind at this place, and is not taken. */
+    static void faulty(int t, String text, int kind, int place) {
+        House house = new House();
+        due("load of " + text, house.take(t, text), -place - 1);
+        due("fault of " + text, house.x.fault(), kind);
+        due("no function of " + text, house.x.call(t, 0, 0), 3);
+        due("no names of " + text, house.x.look(10), 11);
+    }
+
+    static void fine(int t, String text, int functions) {
+        House house = new House();
+        due("load of " + text, house.take(t, text), functions);
+        due("fault of " + text, house.x.fault(), 0);
+    }
+
+    House answers(int t, int f, long a, long answer) {
+        due("outcome of " + t + "." + f + "(" + a + ")", x.call(t, f, a), 0);
+        due("look 0", x.look(0), 0);
+        due("answer of " + t + "." + f + "(" + a + ")", x.answer(), answer);
+        return this;
+    }
+
+    House answersReal(int t, int f, long a, double answer) {
+        return answers(t, f, a, Double.doubleToRawLongBits(answer));
+    }
+
+    House answersNone(int t, int f, long a) {
+        answers(t, f, a, 0);
+        due("sort of the answer", x.look(1), 0);
+        return this;
+    }
+
+    House fails(int t, int f, long a, int what) {
+        due("outcome of " + t + "." + f + "(" + a + ")", x.call(t, f, a), 1);
+        due("look 0", x.look(0), 1);
+        due("no sort of an answer", x.look(1), 0);
+        due("no answer", x.answer(), 0);
+        due("TONGUE of what failed", x.failure(0, 0), t);
+        due("what failed in " + t + "." + f + "(" + a + ")", x.failure(0, 1), what);
+        return this;
+    }
+
+    House looks(int what, int want) {
+        due("look " + what, x.look(what), want);
+        return this;
+    }
+
+    House marks(long... want) {
+        due("how many marks", x.look(3), want.length);
+        for (int i = 0; i < want.length; i++) {
+            due("mark " + i, x.mark(i), want[i]);
+        }
+        due("mark behind the last", x.mark(want.length), 0);
+        due("its tongue", x.markTongue(want.length), -1);
+        return this;
+    }
+
+    House failure(int i, int... want) {
+        for (int what = 0; what < want.length; what++) {
+            due("failure " + i + " " + what, x.failure(i, what), want[what]);
+        }
+        return this;
+    }
+
+    House under(int i, int k, int... want) {
+        for (int what = 0; what < want.length; what++) {
+            due("under " + i + " " + k + " " + what, x.under(i, k, what), want[what]);
+        }
+        return this;
+    }
+
+    static void due(String what, long got, long want) {
+        asked++;
+        if (got != want) {
+            wrong++;
+            String where = "";
+            for (StackTraceElement e : new Throwable().getStackTrace()) {
+                if (!e.getClassName().equals("House")) {
+                    where = e.toString();
+                    break;
+                }
+            }
+            System.out.println(where + ": " + what + " answered " + got + ", due is " + want);
+        }
+    }
+
+    static void due(String what, boolean got, boolean want) {
+        due(what, got ? 1 : 0, want ? 1 : 0);
+    }
+
+    static void close(String test) {
+        System.out.println(test + ": " + asked + " answers, " + wrong + " wrong");
+        if (wrong > 0) {
+            System.exit(1);
+        }
+    }
+}
