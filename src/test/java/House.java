@@ -3,6 +3,7 @@ final class House {
     private static int wrong = 0;
     private static int asked = 0;
     final FourTongues x = new FourTongues();
+    private final String[] texts = {"", "", "", ""};
 
     /** The bytes of a text go onto the TAPE, with blanks up to the next 20. */
     int feedText(String text) {
@@ -29,6 +30,7 @@ final class House {
         if (got < 0) {
             due("load of " + text, got, 1);
         }
+        texts[t] = text;
         return this;
     }
 
@@ -92,6 +94,34 @@ final class House {
     House failure(int i, int... want) {
         for (int what = 0; what < want.length; what++) {
             due("failure " + i + " " + what, x.failure(i, what), want[what]);
+        }
+        return this;
+    }
+
+    /** Where a statement begins in a TONGUE's text; what stands ahead of an @ only finds it. */
+    int place(int tongue, String statement) {
+        int ahead = statement.indexOf('@') + 1;
+        String found = statement.replace("@", "");
+        int at = texts[tongue].indexOf(found);
+        if (at < 0 || texts[tongue].indexOf(found, at + 1) >= 0) {
+            throw new IllegalArgumentException("not once in the text: " + found);
+        }
+        return at + Math.max(ahead - 1, 0);
+    }
+
+    /** The FAILURE's TONGUE, what it is, its statement, and what else is known. */
+    House failureAt(int i, int tongue, int what, String statement, int... more) {
+        failure(i, tongue, what, place(tongue, statement));
+        for (int k = 0; k < more.length; k++) {
+            due("failure " + i + " " + (k + 3), x.failure(i, k + 3), more[k]);
+        }
+        return this;
+    }
+
+    House underAt(int i, int k, int tongue, int what, String statement, int... more) {
+        under(i, k, tongue, what, place(tongue, statement));
+        for (int n = 0; n < more.length; n++) {
+            due("under " + i + " " + k + " " + (n + 3), x.under(i, k, n + 3), more[n]);
         }
         return this;
     }
