@@ -242,6 +242,10 @@ public final class FuzzTest {
     }
 
     private void declare(int parameters, boolean many) {
+        if (parameters < 4 && upTo(3) == 0) {
+            // a variable that no statement gives a VALUE
+            put("if ( 0 ) { let " + VARIABLES[parameters] + " = 1 ; } mark " + VARIABLES[parameters] + " == none ;");
+        }
         for (int k = parameters; k < 4; k++) {
             put("let " + VARIABLES[k] + " = " + (upTo(2) == 0 ? "none" : upTo(4) == 0 ? "new [ 3 ]" : upTo(9)) + " ;");
         }
@@ -394,7 +398,7 @@ public final class FuzzTest {
 
     private void arguments() {
         put("(");
-        int n = upTo(300) == 0 ? 7 + upTo(4) : 1 + upTo(2);
+        int n = upTo(300) == 0 ? 7 + upTo(4) : 1 + upTo(upTo(4) == 0 ? 4 : 2);
         for (int i = 0; i < n; i++) {
             if (i > 0) {
                 put(",");

@@ -6,6 +6,8 @@ public final class RunTest {
         statements();
         arrays();
         functions();
+        tooManyArguments();
+        comparisons();
         steps();
         spent();
         frames();
@@ -127,6 +129,39 @@ public final class RunTest {
             House.due("call", house.x.call(t, 7, 3), 0);
             House.due("the same function", house.x.answer(), t == 3 ? Double.doubleToRawLongBits(10) : 10);
             house.fails(t, 8, 1, 3).looks(3, 1).looks(5, 0);
+        }
+    }
+
+    /** What is too many is let go; it is no variable's VALUE. */
+    private static void tooManyArguments() {
+        for (int t = 0; t < 4; t++) {
+            House house = new House().with(t, "fn f() { if (0) { let b = 1; } return b; } fn g(a) { return h(1, 2, mk()); } fn h(a) { if (0) { let b = 1; let c = 1; } mark b == none; mark c == none; return b; } "
+                + "fn mk() { mark 7; return 7; } fn k(a) { let x = &h; return x!(1, 2, 3, 4, 5, 6, 7, 8); } fn l(a) { return " + (t == 0 ? "codes" : "throws") + ".h(1, 2, 3); }");
+            int other = t == 0 ? 1 : 0;
+            house.with(other, other == t ? "" : "fn h(a) { if (0) { let b = 1; } mark b == none; return b; }");
+            house.answersNone(t, 0, 5).answersNone(t, 1, 5).looks(3, 3).answersNone(t, 4, 5).looks(3, 2).answersNone(t, 5, 5).marks(1);
+        }
+    }
+
+    private static void comparisons() {
+        String[] signs = {"<", "<=", ">", ">=", "==", "!="};
+        int[][] due = {{1, 0, 0}, {1, 1, 0}, {0, 0, 1}, {0, 1, 1}, {0, 1, 0}, {1, 0, 1}};
+        for (int t = 0; t < 4; t++) {
+            for (int k = 0; k < signs.length; k++) {
+                House house = new House().with(t, "fn f(a) { return a " + signs[k] + " 5; } fn g(a) { return -a " + signs[k] + " -5; } fn h(a) { return a " + signs[k] + " none; }");
+                for (int n = 0; n < 3; n++) {
+                    House.due(n + 4 + signs[k] + 5, house.x.call(t, 0, n + 4), 0);
+                    House.due(n + 4 + signs[k] + 5, house.x.answer(), t == 3 ? Double.doubleToRawLongBits(due[k][n]) : due[k][n]);
+                    House.due("less", house.x.call(t, 1, n + 4), 0);
+                    House.due("less", house.x.answer(), t == 3 ? Double.doubleToRawLongBits(due[k][2 - n]) : due[k][2 - n]);
+                }
+                if (k < 4) {
+                    house.fails(t, 2, 1, 4);
+                } else {
+                    House.due("none", house.x.call(t, 2, 1), 0);
+                    House.due("none", house.x.answer(), t == 3 ? Double.doubleToRawLongBits(k - 4) : k - 4);
+                }
+            }
         }
     }
 
