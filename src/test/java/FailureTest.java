@@ -58,6 +58,8 @@ public final class FailureTest {
         house.answers(0, 0, 1, 4).answers(0, 0, 2, 4).answers(0, 0, 3, 5).answers(0, 0, 4, 3);
         House.due("a FAULT", house.take(0, "kind a under c; kind a under a;") < 0, true);
         house.answers(0, 0, 1, 4);
+        House own = new House().with(0, "kind zero under foo; fn f(n) { try { n = 1 / 0; } catch machine x { return 1; } catch foo x { return 2; } } fn g(n) { try { none + 1; } catch foo x { return 1; } catch machine x { return 2; } }");
+        own.answers(0, 0, 0, 2).answers(0, 1, 0, 2);
         String all = "fn f(n) { try { g(n); } catch machine x { return 1; } catch any x { return 2; } } fn g(n) { if (n == 1) { throw zero 1; } if (n == 2) { throw index 1; } if (n == 3) { throw nothing 1; } "
             + "if (n == 4) { throw sort 1; } if (n == 5) { new[0 - 1]; } if (n == 6) { throw deep 1; } if (n == 7) { throw trap 1; } if (n == 8) { throw lost 1; } if (n == 9) { throw border 1; } "
             + "if (n == 10) { throw any 1; } throw machine 1; }";

@@ -7,6 +7,7 @@ public final class NumbersTest {
         ints();
         wholes();
         doubles();
+        ends();
         rests();
         House.close("NumbersTest");
     }
@@ -82,6 +83,14 @@ public final class NumbersTest {
             e308 = e308 * 10;
         }
         house.answersReal(3, 11, 0, 0 - e308 * 1.7).fails(3, 12, 0, 7).fails(3, 13, 0, 7);
+    }
+
+    /** The greatest double, and what lies half a step and a whole one beyond. */
+    private static void ends() {
+        House house = new House().with(3, "fn m() { let x = 9007199254740 * 1000 + 991; let n = 97; while (n) { x = x * 1024; n = n - 1; } return x * 2; } fn p(x) { let n = 96; while (n) { x = x * 1024; n = n - 1; } return x; } "
+            + "fn f(a) { return m(); } fn g(a) { return -m(); } fn h(a) { return m() + p(512); } fn k(a) { return m() + p(1024); } fn l(a) { return -m() - p(1024); } fn o(a) { return m() % -m(); } fn q(a) { return -m() % 3; }");
+        house.answersReal(3, 2, 0, Double.MAX_VALUE).answersReal(3, 3, 0, -Double.MAX_VALUE).answersReal(3, 4, 0, Double.MAX_VALUE);
+        house.fails(3, 5, 0, 7).fails(3, 6, 0, 7).answersReal(3, 7, 0, 0.0).answersReal(3, 8, 0, -Double.MAX_VALUE % 3);
     }
 
     /** A new house, whose life has no STEPS yet. */
