@@ -694,7 +694,7 @@ public final class FourTongues {
             real = reals[now];
         }
 
-        /** From now on there is only a TOKEN that fits nowhere, so that every loop of the parser ends. */
+        /** No TEXT goes on with this TOKEN: it stays at hand, and fits nowhere, so that every loop of the parser ends. */
         void stop() {
             stopped = true;
             kind = WRONG;
@@ -1026,22 +1026,17 @@ public final class FourTongues {
                 } else if (tongue == THROWS && took(Tokens.KIND)) {
                     kindUnder();
                 } else {
-                    wrong();
+                    tokens.stop();
                 }
             }
             if (tokens.kind == Tokens.WRONG) {
-                wrong();
+                faults[1] = tokens.place;
             }
         }
 
-        /** FAULT 1 at the TOKEN at hand; nothing behind it can matter. */
-        private void wrong() {
-            tellFault(1, tokens.place);
-            tokens.stop();
-        }
-
+        /** FAULT 2 or 3; FAULT 1 is where the TOKENS are stopped. */
         private void tellFault(int kind, int at) {
-            if (faults[1] < 0 && (faults[kind] < 0 || at < faults[kind])) {
+            if (faults[kind] < 0 || at < faults[kind]) {
                 faults[kind] = at;
             }
         }
@@ -1058,13 +1053,13 @@ public final class FourTongues {
             if (tokens.kind == kind) {
                 tokens.next();
             } else {
-                wrong();
+                tokens.stop();
             }
         }
 
         private void needOpen(int kind) {
             if (depth >= NEST_MOST) {
-                wrong();
+                tokens.stop();
             }
             need(kind);
             depth++;
@@ -1336,7 +1331,7 @@ public final class FourTongues {
             if (tokens.kind == Tokens.CATCH) {
                 catches(guard);
             } else if (tokens.kind != Tokens.FINALLY) {
-                wrong();
+                tokens.stop();
             }
             if (took(Tokens.FINALLY)) {
                 program.setOp(finish, Program.GUARD);
@@ -1517,7 +1512,9 @@ public final class FourTongues {
             } else if (took('&')) {
                 functionItself();
             } else if (isTongueWord()) {
-                int to = tongueWord();
+                int to = kind - Tokens.FIRST_TONGUE;
+                tokens.next();
+                need('.');
                 long name = tokens.whole;
                 need(Tokens.NAME);
                 arguments(Program.CALL, to, name, -1);
@@ -1537,7 +1534,7 @@ public final class FourTongues {
                 inBrackets('(', ')');
                 endOfParts(Program.BAD, name, 0, ifFails(-1, 0));
             } else {
-                wrong();
+                tokens.stop();
             }
         }
 
@@ -1559,15 +1556,13 @@ public final class FourTongues {
             return tokens.kind >= Tokens.FIRST_TONGUE && tokens.kind < Tokens.FIRST_TONGUE + TONGUES;
         }
 
-        private int tongueWord() {
-            int to = tokens.kind - Tokens.FIRST_TONGUE;
-            tokens.next();
-            need('.');
-            return to;
-        }
-
         private void functionItself() {
-            int to = isTongueWord() ? tongueWord() : tongue;
+            int to = tongue;
+            if (isTongueWord()) {
+                to = tokens.kind - Tokens.FIRST_TONGUE;
+                tokens.next();
+                need('.');
+            }
             long name = tokens.whole;
             need(Tokens.NAME);
             add(Program.FUNCTION, to, program.addConstant(Row.EMPTY, name, 0.0));
@@ -2116,9 +2111,8 @@ public final class FourTongues {
             }
         }
 
-        /** Likewise for a statement, that in VALUES leaves the function. */
-        private void failsOutright(int what, int parts) {
-            fails(what, parts);
+        /** In VALUES what fails at a statement itself leaves the function, as its answer. */
+        private void leaveIfGoing() {
             if (state == GOING) {
                 state = LEFT;
             }
@@ -2379,7 +2373,8 @@ public final class FourTongues {
             if (kind == Row.FAILS) {
                 state = LEFT;
             } else if (kind != Row.NUMBER) {
-                failsOutright(SORT, 1);
+                fails(SORT, 1);
+                leaveIfGoing();
             } else {
                 if (stack.whole(top()) == 0 && stack.real(top()) == 0) {
                     pc = otherwise;
@@ -2393,7 +2388,8 @@ public final class FourTongues {
             if (kind == Row.FAILS) {
                 state = LEFT;
             } else if (kind != Row.NUMBER) {
-                failsOutright(SORT, 1);
+                fails(SORT, 1);
+                leaveIfGoing();
             } else {
                 tally[MARKS]++;
                 if (marks.count() < MARKS_MOST) {
@@ -2584,7 +2580,8 @@ public final class FourTongues {
                 what = SORT;
             }
             if (what != 0) {
-                failsOutright(what, 3);
+                fails(what, 3);
+                leaveIfGoing();
                 return;
             }
             heap.copy(cellAt(array, array + 1), stack, array + 2);
