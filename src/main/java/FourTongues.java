@@ -2532,11 +2532,16 @@ public final class FourTongues {
             }
         }
 
-        /** What fails as an array is asked for a cell; 0 if it has it. */
-        private int whatFailsAt(int array, int index) {
-            if (stack.kind(array) != Row.ARRAY) {
-                return stack.kind(array) == Row.EMPTY ? NOTHING : SORT;
+        /** What fails as a part is asked to be an array; 0 if it is one. */
+        private int whatFailsAsArray(int array) {
+            if (stack.kind(array) == Row.ARRAY) {
+                return 0;
             }
+            return stack.kind(array) == Row.EMPTY ? NOTHING : SORT;
+        }
+
+        /** What fails as a part is asked to be the index of a cell that the array has; 0 if it is one. */
+        private int whatFailsAsIndex(int array, int index) {
             if (stack.kind(index) != Row.NUMBER) {
                 return SORT;
             }
@@ -2550,7 +2555,10 @@ public final class FourTongues {
 
         private void cellOfArray() {
             int array = top() - 1;
-            int what = whatFailsAt(array, array + 1);
+            int what = whatFailsAsArray(array);
+            if (what == 0) {
+                what = whatFailsAsIndex(array, array + 1);
+            }
             if (what != 0) {
                 fails(what, 2);
                 return;
@@ -2568,24 +2576,27 @@ public final class FourTongues {
 
         private void putIntoArray() {
             int array = top() - 2;
-            for (int i = array; i <= array + 2; i++) {
-                if (stack.kind(i) == Row.FAILS) {
-                    stack.resize(i + 1);
-                    state = LEFT;
-                    return;
-                }
+            int asked = array;
+            int what = whatFailsAsArray(array);
+            if (what == 0) {
+                asked = array + 1;
+                what = whatFailsAsIndex(array, asked);
             }
-            int what = whatFailsAt(array, array + 1);
-            if (what == 0 && !borders.turn(stack, array + 2, frames.tongue(), tongueOfArray(array))) {
-                what = SORT;
+            if (what == 0) {
+                asked = array + 2;
+                what = borders.turn(stack, asked, frames.tongue(), tongueOfArray(array)) ? 0 : SORT;
             }
-            if (what != 0) {
+            if (stack.kind(asked) == Row.FAILS) {
+                // a part that FAILS is the answer itself, but only once those ahead of it were asked and found well
+                stack.resize(asked + 1);
+                state = LEFT;
+            } else if (what != 0) {
                 fails(what, 3);
                 leaveIfGoing();
-                return;
+            } else {
+                heap.copy(cellAt(array, array + 1), stack, asked);
+                stack.drop(3);
             }
-            heap.copy(cellAt(array, array + 1), stack, array + 2);
-            stack.drop(3);
         }
 
         private void functionItself(int tongue, int constant) {

@@ -6,6 +6,7 @@ public final class FailureTest {
         kindsTold();
         codes();
         valuesThatFail();
+        cellPutAsksInOrder();
         withEnd();
         exits();
         cleanings();
@@ -99,6 +100,32 @@ public final class FailureTest {
         house.fails(2, 3, 0, 12).marks().fails(2, 4, 0, 12).marks().fails(2, 5, 0, 12).marks();
         house.fails(2, 6, 0, 12).marks(70, 70).fails(2, 7, 0, 12).marks(70);
         house.answers(2, 8, 0, 3).answers(2, 9, 0, 11);
+    }
+
+    /** x [ i ] = E in VALUES: all are worked out, then x is asked, i, and only then what E is. */
+    private static void cellPutAsksInOrder() {
+        House house = new House().with(2, "fn f(a) { a[0] = bad foo(1); mark 9; } fn g(a) { let x = none; x[0] = bad foo(1); mark 9; } fn h(a) { a[bad foo(mk())] = mk(); mark 9; } "
+            + "fn k(a) { let x = new[2]; x[a] = bad foo(1); mark 9; } fn l(a) { let x = new[2]; x[none] = bad foo(mk()); mark 9; } fn m(a) { let x = new[2]; x[bad foo(1)] = bad bar(2); mark 9; } "
+            + "fn n(a) { let x = bad bar(1); x[bad foo(2)] = bad baz(3); mark 9; } fn o(a) { let x = bad foo(1); x[none] = mk(); mark 9; } fn p(a) { with { a[1] = bad foo(1); } end { mark 5; } } "
+            + "fn q(a) { with { return bad foo(1); } end { a[2] = bad bar(2); } } fn mk() { mark 70; return 1; }");
+        house.fails(2, 0, 0, 4).failureAt(0, 2, 4, "a[0] = bad foo(1);", 0, 0, 0, 0).failure(1, -1).marks().looks(2, 3).looks(4, 0);
+        house.fails(2, 1, 0, 3).failureAt(0, 2, 3, "x[0] = bad foo(1);", 0, 0, 0, 1).marks().looks(2, 4);
+        house.fails(2, 2, 0, 4).failureAt(0, 2, 4, "a[bad foo(mk())]", 0, 0, 0, 2).marks(70, 70);
+        house.fails(2, 3, 2, 2).failureAt(0, 2, 2, "x[a] =", 0, 0, 0, 3).fails(2, 3, -1, 2).fails(2, 3, 401, 2).looks(2, 5);
+        house.fails(2, 3, 1, 12).failureAt(0, 2, 12, "x[a] =", 0, 0, 1, 3).marks().looks(2, 4);
+        house.fails(2, 4, 0, 4).failureAt(0, 2, 4, "x[none] = bad", 0, 0, 0, 4).marks(70);
+        house.fails(2, 5, 0, 12).failureAt(0, 2, 12, "x[bad foo(1)] =", 0, 0, 1, 5).marks();
+        house.fails(2, 6, 0, 13).failureAt(0, 2, 13, "let x = bad bar(1);", 0, 0, 1, 6).marks();
+        house.fails(2, 7, 0, 12).failure(0, 2, 12).marks(70);
+        house.fails(2, 8, 0, 4).failureAt(0, 2, 4, "a[1] =", 0, 0, 0, 8).marks(5);
+        house.fails(2, 9, 0, 4).failureAt(0, 2, 4, "a[2] =", 0, 1, 0, 9).underAt(0, 0, 2, 12, "fn q(a) { with { @return bad foo(1);", 0, 0, 1, 9).under(0, 1, -1);
+        // an array of another TONGUE: asked likewise, and what FAILS isn't put there
+        house = new House().with(2, "fn f(a) { let x = throws.g(a); x[1] = bad foo(1); } fn g(x, i) { x[i] = bad foo(1); }")
+            .with(0, "fn g(a) { return new[a]; } fn h(a) { let x = new[2]; x[0] = 5; try { values.g(x, a); } catch border e { mark e; } catch foo e { mark 8; } return x[0]; }");
+        house.fails(2, 0, 1, 2).failureAt(0, 2, 2, "x[1] =", 0, 0, 0, 0).fails(2, 0, 2, 12).failureAt(0, 2, 12, "x[1] =", 0, 0, 1, 0);
+        house.answers(0, 1, 0, 5).marks(1);
+        house.x.entry(2, 0, 2, 12);
+        house.answers(0, 1, 2, 5).marks(8).answers(0, 1, 1, 5).marks(1);
     }
 
     private static void withEnd() {

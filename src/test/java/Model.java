@@ -579,15 +579,9 @@ final class Model {
         Object x = here().variables.get(s.name);
         Object i = work(s.kids.get(0));
         Object e = work(s.kids.get(1));
-        for (Object part : new Object[] {x, i, e}) {
-            if (part instanceof Fail) {
-                throw new Return(part);
-            }
-        }
-        int what = ask(x, i);
-        if (what != 0) {
-            ariseOut(what);
-        }
+        comesTo(x, askArray(x));
+        comesTo(i, askIndex((Arr) x, i));
+        comesTo(e, 0);
         Arr arr = (Arr) x;
         Object back = turn(e, here().tongue, arr.tongue);
         if (back instanceof Fail) {
@@ -596,15 +590,26 @@ final class Model {
         arr.cells[exact(i).intValue()] = back;
     }
 
-    int ask(Object x, Object i) {
-        if (!(x instanceof Arr)) {
-            return x == null ? 3 : 4;
+    /** A part comes to a cell's =: one that FAILS is the function's answer, one that won't do arises as what it is. */
+    void comesTo(Object part, int what) {
+        if (part instanceof Fail) {
+            throw new Return(part);
         }
+        if (what != 0) {
+            ariseOut(what);
+        }
+    }
+
+    int askArray(Object x) {
+        return x instanceof Arr ? 0 : x == null ? 3 : 4;
+    }
+
+    int askIndex(Arr x, Object i) {
         if (!isNumber(i)) {
             return 4;
         }
         BigDecimal exact = exact(i);
-        boolean has = exact.signum() >= 0 && exact.compareTo(BigDecimal.valueOf(((Arr) x).cells.length)) < 0
+        boolean has = exact.signum() >= 0 && exact.compareTo(BigDecimal.valueOf(x.cells.length)) < 0
             && exact.remainder(BigDecimal.ONE).signum() == 0;
         return has ? 0 : 2;
     }
@@ -807,7 +812,10 @@ final class Model {
     }
 
     Object readCell(Object x, Object i) {
-        int what = ask(x, i);
+        int what = askArray(x);
+        if (what == 0) {
+            what = askIndex((Arr) x, i);
+        }
         if (what != 0) {
             return arise(what);
         }
