@@ -2,6 +2,7 @@
 final class House {
     private static int wrong = 0;
     private static int asked = 0;
+    private static String sentence = "";
     final FourTongues x = new FourTongues();
     private final String[] texts = {"", "", "", ""};
 
@@ -133,6 +134,38 @@ final class House {
         return this;
     }
 
+    /** The document's words that the answers from here on hold against the class. */
+    static void sentence(String words) {
+        sentence = words;
+    }
+
+    /** A whole NUMBER as a TONGUE's answers and MARKS tell it. */
+    static long told(int tongue, long whole) {
+        return tongue == 3 ? Double.doubleToRawLongBits((double) whole) : whole;
+    }
+
+    House answersWhole(int t, int f, long a, long whole) {
+        return answers(t, f, a, told(t, whole)).looks(1, 1);
+    }
+
+    /** MARKS of one TONGUE, all whole. */
+    House marksOf(int t, long... wholes) {
+        long[] want = wholes.clone();
+        for (int i = 0; i < want.length; i++) {
+            want[i] = told(t, want[i]);
+        }
+        return marks(want);
+    }
+
+    House isSpent(int t, int f, long a) {
+        due("outcome of " + t + "." + f + "(" + a + ")", x.call(t, f, a), 2);
+        due("look 0", x.look(0), 2);
+        due("no sort of an answer", x.look(1), 0);
+        due("no answer", x.answer(), 0);
+        due("no FAILURE", x.failure(0, 0), -1);
+        return this;
+    }
+
     static void due(String what, long got, long want) {
         asked++;
         if (got != want) {
@@ -144,7 +177,7 @@ final class House {
                     break;
                 }
             }
-            System.out.println(where + ": " + what + " answered " + got + ", due is " + want);
+            System.out.println(where + ": " + what + " answered " + got + ", due is " + want + (sentence.isEmpty() ? "" : " by: " + sentence));
         }
     }
 
