@@ -20,11 +20,14 @@ public final class PromisesTest {
         letters();
         lettersOfNoneSuch();
         rulesThatAre();
+        rulesOfEachBorder();
         rulesThatAreNot();
         entriesInPlace();
+        entriesOfEachBorder();
         entriesThatAreNot();
         hundredEntries();
         defaultOfTheBorder();
+        defaultsOfEachBorder();
         callsAndTheirOutcomes();
         callOfNoSuchFunction();
         callOfANumberThatCannotBe();
@@ -233,6 +236,14 @@ public final class PromisesTest {
             House.due("two functions", house.x.call(0, 2, 0), 3);
             House.due("no further NAME", house.x.letter(15, 0), -1);
         }
+        // of 40 further NAMES the last one's KIND stays, too
+        StringBuilder names = new StringBuilder("kind k0 under any;");
+        for (int i = 1; i < 40; i++) {
+            names.append("kind k").append(i).append(" under any;");
+        }
+        House full = new House().with(0, names + "fn f(a) { try { throw k39 1; } catch k0 x { return 1; } catch any x { return 2; } }").answers(0, 0, 0, 2);
+        House.due("a FAULT", full.take(0, "kind k39 under k0; ?"), -19 - 1);
+        full.looks(10, 51).answers(0, 0, 0, 2);
         House.due("place 0", house.take(3, "1"), -1);
         House.due("no text", house.x.call(3, 0, 0), 3);
     }
@@ -322,6 +333,39 @@ public final class PromisesTest {
         house.fails(0, 0, 4294967301L, 9);
     }
 
+    /** A NUMBER that RULE 0 doesn't turn from one TONGUE to another; null if it turns all. */
+    private static String notTurned(int from, int to) {
+        if (from == 1 || from == 2 && to == 0) {
+            return null;
+        }
+        return from == 3 ? "0.5" : to == 1 ? "2147483648" : to == 2 ? "100000000000000001" : "9007199254740993";
+    }
+
+    private static void rulesOfEachBorder() {
+        House.sentence("The RULE from one TONGUE to another: of that border alone");
+        House house = new House();
+        for (int from = 0; from < 4; from++) {
+            StringBuilder text = new StringBuilder("fn b(a) { }");
+            for (int to = 0; to < 4; to++) {
+                String number = notTurned(from, to);
+                text.append("fn f").append(to).append("(a) { return ").append(from == to || number == null ? "1" : WORDS[to] + ".b(" + number + ")").append("; }");
+            }
+            house.with(from, text.toString());
+        }
+        for (int border = 0; border < 16; border++) {
+            for (int rule = 2; rule >= 0 && border / 4 != border % 4; rule -= 2) {
+                House.due("rule", house.x.rule(border / 4, border % 4, rule), true);
+                for (int other = 0; other < 16; other++) {
+                    int from = other / 4;
+                    int to = other % 4;
+                    if (from != to && notTurned(from, to) != null && (other == border || from == border / 4 || to == border % 4)) {
+                        House.due(from + " to " + to + " as " + border + " has " + rule, house.x.call(from, 1 + to, 0), other == border && rule == 2 ? 0 : 1);
+                    }
+                }
+            }
+        }
+    }
+
     private static void rulesThatAreNot() {
         House.sentence("false, and nothing happens, for others, or from one to itself");
         House house = new House().with(0, "fn f(a) { return codes.f(a); }").with(1, "fn f(a) { return a; }");
@@ -356,6 +400,51 @@ public final class PromisesTest {
             house.fails(3, 0, code, 9);
         }
         house.fails(0, 0, 2, 9);
+    }
+
+    /** Each TONGUE's function 1 + u calls one of TONGUE u that fails with ZERO, and fails with what it becomes. */
+    private static House failingAll() {
+        House house = new House();
+        for (int t = 0; t < 4; t++) {
+            StringBuilder text = new StringBuilder("fn b(a) { return 1 / 0; }");
+            for (int u = 0; u < 4; u++) {
+                text.append("fn f").append(u).append("(a) { ").append(t == 1 ? WORDS[u] + ".b(); fail cell;" : "return " + WORDS[u] + ".b();").append(" }");
+            }
+            house.with(t, text.toString());
+        }
+        return house;
+    }
+
+    private static void becomesOnlyOver(House house, int border, int what) {
+        for (int other = 0; other < 16; other++) {
+            int from = other / 4;
+            int to = other % 4;
+            if (from != to) {
+                house.fails(to, 1 + from, 0, other == border ? what : 9);
+            }
+        }
+    }
+
+    private static void entriesOfEachBorder() {
+        House.sentence("An ENTRY: of that border alone");
+        for (int border = 0; border < 16; border++) {
+            if (border / 4 != border % 4) {
+                House house = failingAll();
+                House.due("entry", house.x.entry(border / 4, border % 4, 1, 3), true);
+                becomesOnlyOver(house, border, 3);
+            }
+        }
+    }
+
+    private static void defaultsOfEachBorder() {
+        House.sentence("the DEFAULT of the border: of that border alone");
+        for (int border = 0; border < 16; border++) {
+            if (border / 4 != border % 4) {
+                House house = failingAll();
+                House.due("DEFAULT", house.x.entry(border / 4, border % 4, 0, 3), true);
+                becomesOnlyOver(house, border, 3);
+            }
+        }
     }
 
     private static void entriesThatAreNot() {

@@ -21,6 +21,7 @@ public final class TermsFailingTest {
         partsThatFail();
         tags();
         elseInPlace();
+        elseWithinParts();
         leavesAtAQuestion();
         leavesAtAMark();
         leavesAtACellsPut();
@@ -36,6 +37,8 @@ public final class TermsFailingTest {
         takesThePlaceByFailing();
         inFrontOfThoseUnder();
         notUnderItself();
+        manyUnder();
+        manyGuards();
         House.close("TermsFailingTest");
     }
 
@@ -181,6 +184,8 @@ public final class TermsFailingTest {
         House house = new House().with(1, "fn b(a) { fail a; return 1; } fn f(a) { let x = b(a); mark x == none; mark cell; return 8; } fn g(a) { on { mark 1; b(a); mark 2; } go { mark cell; } return 9; } fn h(a) { mark b(1) == b(2); let k = &b; mark k!(3) == none; return cell; } fn k(a) { return b(a); } fn l(a) { return 1 + b(a); }");
         house.answers(1, 1, 6, 8).marks(1, 6).looks(6, 0).looks(9, 6).answers(1, 1, 0, 8).marks(0, 6).answers(1, 2, 6, 9).marks(1, 6).answers(1, 2, 0, 9).marks(1, 2);
         house.answers(1, 3, 0, 3).marks(1, 1).answersNone(1, 4, 5).looks(0, 0).looks(9, 5);
+        // it stands among other parts
+        new House().with(1, "fn b(a) { fail a; } fn t(a, b, c) { mark a; mark b == none; mark c; } fn f(a) { let p = &b; t(5, b(1), 3); t(6, p!(1), 4); }").answersNone(1, 2, 0).marks(5, 1, 3, 6, 1, 4);
         // the none fails on its own
         house.fails(1, 5, 5, 4).looks(9, 4).failure(0, 1, 4).failure(1, -1);
         // what the function that fails called ahead has changed the CELL, too; its own CODE is the later
@@ -193,6 +198,7 @@ public final class TermsFailingTest {
         House house = new House().with(1, "fn f(a) { let x = throws.b(a); mark x == none; return cell; } fn g(a) { on { throws.b(a); mark 2; } go { mark cell; } return 9; } fn h(a) { values.b(a); exits.b(a); return cell; } fn k(a) { return throws.b(a); }")
             .with(0, "fn b(a) { throw foo a; }").with(2, "fn b(a) { return bad foo(a); }").with(3, "fn b(a) { a / 0; }");
         house.answers(1, 0, 6, 9).marks(1).looks(6, 1).looks(9, 9).answers(1, 1, 6, 9).marks(9);
+        new House().with(1, "fn t(a, b, c) { mark a; mark b == none; mark c; } fn f(a) { t(5, throws.b(1), 3); t(6, values.b(1), 4); t(7, exits.b(1), 8); }").with(0, "fn b(a) { throw foo a; }").with(2, "fn b(a) { return bad foo(a); }").with(3, "fn b(a) { a / 0; }").answersNone(1, 1, 0).marks(5, 1, 3, 6, 1, 4, 7, 1, 8).looks(6, 3);
         house.x.entry(0, 1, 12, -4);
         house.x.entry(3, 1, 0, 77);
         house.answers(1, 0, 6, -4).marks(1).answers(1, 1, 6, 9).marks(-4).looks(9, -4).answers(1, 2, 6, 77).looks(6, 2).answersNone(1, 3, 6).looks(9, -4);
@@ -246,6 +252,19 @@ public final class TermsFailingTest {
         House house = new House().with(2, "fn f(a) { return 6 / a else m(); } fn m() { mark 1; return 7; } fn g(a) { return none else m(); } fn h(a) { return bad foo(1) else bad bar(2) else 3; } fn k(a) { return bad foo(1) else bad bar(2); } fn l(a) { return (bad foo(1) else 2) + 3; } fn n(a) { return 4 + (1 / 0) else 5; }");
         house.answers(2, 0, 2, 3).marks().answers(2, 0, 0, 7).marks(1).answersNone(2, 2, 0).marks().answers(2, 3, 0, 3).fails(2, 4, 0, 13).answers(2, 5, 0, 5).answers(2, 6, 0, 5);
         house.looks(4, 0);
+    }
+
+    private static void elseWithinParts() {
+        House.sentence("Q else E: E in place of one that FAILS, and of nothing else");
+        String[] parts = {"1 / 0", "7 % 0", "none + 1", "1 - none", "none < 1", "100000000000000000 + 1", "-none", "new[none]", "new[401]", "size(1)", "size(none)", "x[9]", "x[none]", "n[0]", "a[0]", "no()", "no(1, 2)", "&no", "n!(1)", "a!(1, 2)", "throws.no(1)", "throws.b(1)", "exits.h(1)", "exits.b()",
+            "throws.m(v)", "codes.m(2147483648)", "codes.m(1, 2, 2147483648)", "y[0]", "1 + v", "v + 1", "1 < v", "v >= 1", "2 * v", "v / 2", "1 == v", "v != v", "-v", "new[v]", "size(v)", "x[v]", "v[1]", "m(1, v, 2)", "p!(1, v)", "v!(1)", "throws.m(1, v)", "bad foo(v)", "bad foo(1)", "v", "m(1 + v)", "1 + 2 * v", "bad foo(1) else v"};
+        for (String part : parts) {
+            House house = new House().with(2, "fn m(a) { return a; } fn g(a, b, c, d) { return a * 1000 + b * 100 + c * 10 + d; } fn f(a) { let v = bad foo(7); let x = new[2]; let n = none; let p = &m; let y = exits.y(); return g(3, PART else 2, PART else 5, 4); } "
+                .replace("PART", part) + "fn h(a) { let v = bad foo(7); let x = new[2]; let n = none; let p = &m; let y = exits.y(); return 7 + (PART else 2) * 10 - (3 - (PART else 2)); }".replace("PART", part)
+                + "fn k(a) { let v = bad foo(7); let x = new[2]; let n = none; let p = &m; let y = exits.y(); return g(3, 0 < tag(PART), 5, 4); }".replace("PART", part))
+                .with(0, "fn b(a) { throw foo a; } fn m(a) { }").with(3, "fn h(a) { return 0.5; } fn b() { exit foo 1; } fn y() { let y = new[1]; y[0] = 0.5; return y; }").with(1, "fn m(a) { }");
+            house.answers(2, 2, 1, 3254).answers(2, 3, 1, 26).answers(2, 4, 1, 3154).looks(4, 0);
+        }
     }
 
     private static final String LEAVING = "fn m() { mark 70; return 1; } fn v(a) { return bad foo(a); } ";
@@ -378,5 +397,40 @@ public final class TermsFailingTest {
         House house = new House().with(2, "fn f(a) { let v = bad foo(1); with { return v; } end { return v; } } fn g(a) { let v = bad foo(1); let w = bad bar(2); with { return v; } end { with { return w; } end { return v; } } }");
         house.fails(2, 0, 0, 12).failure(0, 2, 12, 10, 0, 0).under(0, 0, -1);
         house.fails(2, 1, 0, 12).failureAt(0, 2, 12, "fn g(a) { @let v = bad foo(1);", 0, 1).under(0, 0, 2, 13).under(0, 1, -1);
+    }
+
+    private static void manyUnder() {
+        House.sentence("a FAILURE that was under way lies under a FAILURE that takes its place: of many, each has its own");
+        House house = new House().with(0, "fn f(a) { while (a) { try { try { throw foo a; } finally { throw bar a; } } catch bar x { } a = a - 1; } try { throw foo 1; } finally { throw baz 2; } }");
+        house.fails(0, 0, 400, 14).failureAt(0, 0, 14, "throw baz 2;", 0, 1, 1, 0).underAt(0, 0, 0, 12, "throw foo 1;", 0, 0, 1, 0).under(0, 1, -1);
+        // each FRAME's finally adds the one that was under way there
+        house = new House().with(0, "fn f(a) { try { try { throw k1 a; } finally { try { throw k2 a; } finally { if (a) { f(a - 1); } throw k3 a; } } } finally { mark a; } }");
+        house.fails(0, 0, 23, 14).looks(3, 24);
+        House.due("how many", house.x.failure(0, 4), 48);
+        for (int k = 0; k < 48; k++) {
+            house.under(0, k, 0, k % 2 == 0 ? 12 : 13);
+        }
+        house.under(0, 48, -1);
+        // a NUMBER that a return brings is no FAILURE: 0 and 1 are left alone
+        house = new House().with(2, "fn f(a) { let v = bad foo(1); let w = bad bar(2); g(a); if (a) { return w; } return v; } fn g(a) { with { return bad baz(3); } end { return a; } }");
+        house.fails(2, 0, 0, 12).failure(0, 2, 12, 10, 0, 0).under(0, 0, -1).fails(2, 0, 1, 13);
+        House.due("none under it", house.x.failure(0, 4), 0);
+    }
+
+    private static void manyGuards() {
+        House.sentence("all is well: what is behind it holds as ever, however often");
+        String[] turns = {"try { a = a - 1; } finally { }", "try { a = a - 1; throw foo 1; } catch foo x { }", "try { a = a - 1; throw foo 1; } catch foo x { } finally { }", "try { a = a - 1; } catch foo x { }", "try { g(); } catch foo x { } a = a - 1;", "h(); a = a - 1;"};
+        for (String turn : turns) {
+            new House().with(0, "fn f(a) { while (a) { " + turn + " } try { try { throw foo 5; } finally { mark 1; } } catch foo x { return x; } } fn g() { try { throw foo 1; } finally { } } fn h() { try { return 1; } finally { } }").answers(0, 0, 500, 5).marks(1);
+        }
+        for (String turn : new String[] {"on { a = a - 1; } go { }", "on { a = a - 1; fail 1; } go { }", "h(); a = a - 1;", "on { g(); } go { } a = a - 1;"}) {
+            new House().with(1, "fn f(a) { while (a) { " + turn + " } on { fail 5; } go { return cell; } } fn g() { fail 1; } fn h() { on { return 1; } go { } }").answers(1, 0, 500, 5);
+        }
+        for (String turn : new String[] {"with { a = a - 1; } end { }", "h(); a = a - 1;", "g(); a = a - 1;"}) {
+            new House().with(2, "fn f(a) { while (a) { " + turn + " } with { return 5; } end { mark 1; } } fn g() { with { mark none; } end { } } fn h() { with { return 1; } end { } }").answers(2, 0, 500, 5).marks(1);
+        }
+        for (String turn : new String[] {"clean { } do { a = a - 1; }", "open foo x { a = a - 1; } then { }", "open foo x { a = a - 1; exit foo 1; } then { }", "open foo x { g(); } then { } a = a - 1;", "h(); a = a - 1;"}) {
+            new House().with(3, "fn f(a) { while (a) { " + turn + " } open foo x { clean { mark 1; } do { exit foo 5; } } then { return x; } } fn g() { clean { } do { exit foo 1; } } fn h() { clean { } do { return 1; } }").answersReal(3, 0, 500, 5).marksOf(3, 1);
+        }
     }
 }

@@ -7,6 +7,7 @@ public final class TermsThreeTest {
         argumentsThatLack();
         argumentsTooMany();
         partsFromTheLeft();
+        partsWithinParts();
         callsThatFindNone();
         heldCallsThatFindNone();
         stepsOfStatements();
@@ -87,6 +88,22 @@ public final class TermsThreeTest {
                 + "fn l(a) { let x = &n; x!(m(1), m(2)); } fn o(a) { " + WORDS[other(t)] + ".n(m(1), m(2)); } fn p(a) { return 20 - 5 - 3; } fn q(a) { return 100 / 5 / 2 * 3 % 7; }").with(other(t), "fn n(a) { }");
             house.answersNone(t, 1, 0).marksOf(t, 1, 2, 3, 4).answersNone(t, 2, 0).marksOf(t, 1, 2, 3).answersNone(t, 4, 0).marksOf(t, 1, 2, 3, 4).answersNone(t, 5, 0).marksOf(t, 5, 6);
             house.answersNone(t, 6, 0).marksOf(t, 1, 2).answersNone(t, 7, 0).marksOf(t, 1, 2).answersWhole(t, 8, 0, 12).answersWhole(t, 9, 0, 2);
+        }
+    }
+
+    private static void partsWithinParts() {
+        House.sentence("Parts are worked out from the left: none of them touches those ahead of it");
+        for (int t = 0; t < 4; t++) {
+            String away = WORDS[other(t)];
+            String[] parts = {"2", "1 + 1", "4 - 2", "1 * 2", "6 / 3", "8 % 6", "(1 < 2) + 1", "(2 == 2) + 1", "1 + (1 != 2)", "-(0 - 2)", "size(new[2])", "x[1]", "h(2)", "p!(2)", away + ".h(2)", "q!(2)", "y[0]", "size(y)", "h(1, h(5), 6) + 1", "(((2)))"};
+            for (String part : parts) {
+                House house = new House().with(t, "fn h(a) { return a; } fn g(a, b, c, d) { return a * 1000 + b * 100 + c * 10 + d; } fn f(a) { let x = new[2]; x[1] = 2; let p = &h; let q = &" + away + ".h; let y = " + away + ".y(); return g(3, " + part + ", " + part + ", 4); } "
+                    + "fn k(a) { let x = new[2]; x[1] = 2; let p = &h; let q = &" + away + ".h; let y = " + away + ".y(); return 7 + (" + part + ") * 10 - (3 - (" + part + ")); }").with(other(t), "fn h(a) { return a; } fn y() { let y = new[2]; y[0] = 2; return y; }");
+                house.answersWhole(t, 2, 0, 3224).answersWhole(t, 3, 0, 26);
+            }
+            for (String one : new String[] {"1 < 2", "2 <= 2", "2 > 1", "2 >= 2", "2 == 2", "1 != 2"}) {
+                new House().with(t, "fn g(a, b, c) { return a * 100 + b * 10 + c; } fn f(a) { return g(3, " + one + ", 4); } fn h(a) { return 20 - (" + one + "); }").answersWhole(t, 1, 0, 314).answersWhole(t, 2, 0, 19);
+            }
         }
     }
 
@@ -295,6 +312,13 @@ public final class TermsThreeTest {
             lastStep(t, "let x = none; x[0] = 1;", 3, 1);
             lastStep(t, away + ".b();", 6, t == 2 || t == 1 ? 0 : 1);
         }
+        // an argument that isn't counted any more calls nothing
+        for (int t = 0; t < 4; t++) {
+            String away = WORDS[other(t)];
+            house(t, spending(4998, away + ".g(1);")).isSpent(t, 0, 3).looks(2, 5000).looks(5, 0).looks(7, 1);
+            house(t, spending(4997, "let p = &" + away + ".g; p!(1);")).isSpent(t, 0, 3).looks(2, 5000).looks(5, 0).looks(7, 1);
+            house(t, spending(4999, "g();")).isSpent(t, 0, 3).looks(7, 1);
+        }
         lastStep(0, "throw foo 1;", 2, 1);
         lastStep(1, "fail 1;", 2, 1);
         lastStep(2, "return bad foo(1);", 2, 1);
@@ -331,6 +355,11 @@ public final class TermsThreeTest {
         new House().with(3, "fn f(a) { open any x { clean { mark 1; } do { while (1) { } } } then { mark 2; } }").isSpent(3, 0, 0).marks();
         House house = new House().with(0, "fn f(a) { try { mark 5; codes.f(a); } catch any x { mark 1; } finally { mark 2; } }").with(1, "fn f(a) { on { values.f(a); } go { mark 3; } }").with(2, "fn f(a) { with { while (1) { } } end { mark 4; } }");
         house.isSpent(0, 0, 0).marks(5).looks(5, 2).looks(6, 0).looks(7, 3).looks(2, 5000);
+        // nothing of it stands in the way of later runs, however many it left open
+        House deep = new House().with(0, "fn f(a) { try { try { if (a) { f(a - 1); } while (1) { } } finally { mark 9; } } catch any x { mark 8; } } fn g(a) { try { try { throw foo a; } finally { mark 1; } } catch foo x { return x; } }");
+        for (int i = 0; i < 12; i++) {
+            deep.isSpent(0, 0, 23).looks(7, 24).marks().answers(0, 1, i, i).marks(1);
+        }
         // what the finishing B itself spends
         new House().with(0, "fn f(a) { try { throw foo 1; } finally { while (1) { } } }").isSpent(0, 0, 0);
         // the next run begins anew
@@ -485,6 +514,7 @@ public final class TermsThreeTest {
             House house = new House().with(t, "fn f(a) { let x = new[3]; x[2] = 6; x[0] = 4; return x[a]; } fn g(a) { let x = none; return x[a]; } fn h(a) { return a[0]; } fn k(a) { let x = &f; return x[0]; } fn l(a) { let x = new[3]; return x[none]; } fn m(a) { let x = new[3]; return x[x]; } fn n(a) { let x = new[3]; return x[&f]; } "
                 + "fn o(a) { let x = new[0]; return x[a]; } fn p(a) { let x = none; return x[none]; } fn q(a) { return a[none]; } fn r(a) { let x = new[400]; x[399] = 9; return x[a]; }");
             house.answersWhole(t, 0, 0, 4).answersNone(t, 0, 1).answersWhole(t, 0, 2, 6).fails(t, 0, 3, 2).fails(t, 0, -1, 2).fails(t, 0, 2147483647, 2).fails(t, 0, -2147483648L, 2);
+            house.fails(t, 0, 4, 2).fails(t, 0, 5, 2).fails(t, 0, 399, 2).fails(t, 0, 400, 2);
             house.fails(t, 1, 0, 3).fails(t, 2, 0, 4).fails(t, 3, 0, 4).fails(t, 4, 0, 4).fails(t, 5, 0, 4).fails(t, 6, 0, 4).fails(t, 7, 0, 2).fails(t, 8, 0, 3).fails(t, 9, 0, 4);
             house.answersWhole(t, 10, 399, 9).fails(t, 10, 400, 2).fails(t, 10, 401, 2);
         }
@@ -499,7 +529,7 @@ public final class TermsThreeTest {
             House house = new House().with(t, "fn m(a) { mark a; return a; } fn f(a) { let x = none; x[m(1)] = m(2); mark 9; } fn g(a) { a[m(1)] = m(2); } fn h(a) { let x = none; x[none] = m(2); } fn k(a) { a[none] = m(2); } fn l(a) { let x = new[2]; x[none] = m(2); } fn n(a) { let x = new[2]; x[a] = m(2); return x[1]; } "
                 + "fn o(a) { let x = new[2]; x[0] = p(x); return x[0]; } fn p(x) { x[0] = 5; x[1] = 6; return x[0] + 1; } fn q(a) { let x = &f; x[0] = 1; } fn r(a) { let x = new[1]; x[0] = none; x[0] = x; let y = x[0]; y[0] = &f; return x[0]; }");
             house.fails(t, 1, 0, 3).marksOf(t, 1, 2).fails(t, 2, 0, 4).marksOf(t, 1, 2).fails(t, 3, 0, 3).marksOf(t, 2).fails(t, 4, 0, 4).marksOf(t, 2).fails(t, 5, 0, 4).marksOf(t, 2);
-            house.fails(t, 6, 2, 2).marksOf(t, 2).fails(t, 6, -1, 2).marksOf(t, 2).answersWhole(t, 6, 1, 2).answersNone(t, 6, 0);
+            house.fails(t, 6, 3, 2).marksOf(t, 2).fails(t, 6, 400, 2).marksOf(t, 2).fails(t, 6, 2, 2).marksOf(t, 2).fails(t, 6, -1, 2).marksOf(t, 2).answersWhole(t, 6, 1, 2).answersNone(t, 6, 0);
             house.answersWhole(t, 7, 0, 6).fails(t, 9, 0, 4).answers(t, 10, 0, 64 * t + 1).looks(1, 3);
         }
         new House().with(3, "fn f(a) { let x = new[2]; x[0.5] = 1; } fn g(a) { let x = new[2]; x[-0] = 1; return x[0]; }").fails(3, 0, 0, 2).answersReal(3, 1, 0, 1);
@@ -541,6 +571,12 @@ public final class TermsThreeTest {
         House.sentence("(the first 200 of a run)");
         for (int t = 0; t < 4; t++) {
             House house = new House().with(t, "fn f(a) { let i = 0; while (i < a) { i = i + 1; mark i; } }");
+            for (int n : new int[] {15, 16, 17, 31, 32, 33, 63, 64, 65, 127, 128, 129}) {
+                house.answersNone(t, 0, n).looks(3, n);
+                House.due("the last of " + n, house.x.mark(n - 1), House.told(t, n));
+                House.due("behind the last of " + n, house.x.mark(n), 0);
+                House.due("its TONGUE", house.x.markTongue(n), -1);
+            }
             for (int n : new int[] {199, 200, 201, 400, 3}) {
                 house.answersNone(t, 0, n).looks(3, n);
                 for (int i : new int[] {0, 2, 198, 199, 200, 201, 399}) {

@@ -516,6 +516,8 @@ public final class TermsTwoTest {
         for (int t = 0; t < 4; t++) {
             House.faulty(t, "fn f(){}fn f(){}", 3, 11);
             House.faulty(t, "fn f(){}fn g(){}fn f(a){}fn g(){}", 3, 19);
+            House.faulty(t, "fn f(){}fn g(){}fn h(){}fn g(){}", 3, 27);
+            House.faulty(t, "fn f(){}fn g(){}fn h(){}fn h(){}", 3, 27);
             House.fine(t, "fn f(f){}fn g(f){}fn ff(){}", 3);
         }
         // another TONGUE's, or a text's ahead, is another
