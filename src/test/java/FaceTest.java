@@ -10,7 +10,7 @@ public final class FaceTest {
     }
 
     private static void newObject() {
-        FourTongues x = new FourTongues();
+        Counted x = new Counted();
         House.due("NONE", FourTongues.NONE, -1);
         for (int what = 0; what <= 9; what++) {
             House.due("look " + what, x.look(what), 0);
@@ -39,7 +39,7 @@ public final class FaceTest {
     }
 
     private static void feeding() {
-        FourTongues x = new FourTongues();
+        Counted x = new Counted();
         for (int i = 1; i <= 150; i++) {
             House.due("feed", x.feed(538976288, 538976288, 538976288, 538976288, 538976288), 20 * i);
         }
@@ -87,7 +87,7 @@ public final class FaceTest {
         spelled(house.x, 12, "abcdefgh");
     }
 
-    private static void spelled(FourTongues x, int number, String name) {
+    private static void spelled(Counted x, int number, String name) {
         for (int k = 0; k < name.length(); k++) {
             House.due("letter of " + name, x.letter(number, k), name.charAt(k));
         }
@@ -97,7 +97,7 @@ public final class FaceTest {
     }
 
     private static void rules() {
-        FourTongues x = new FourTongues();
+        Counted x = new Counted();
         for (int from = -1; from <= 4; from++) {
             for (int to = -1; to <= 4; to++) {
                 for (int rule = -1; rule <= 3; rule++) {
@@ -120,7 +120,7 @@ public final class FaceTest {
     }
 
     private static void entries() {
-        FourTongues x = new FourTongues();
+        Counted x = new Counted();
         House.due("to itself", x.entry(1, 1, 1, 1), false);
         House.due("from -1", x.entry(-1, 1, 1, 1), false);
         House.due("from 4", x.entry(4, 1, 1, 1), false);
@@ -141,7 +141,7 @@ public final class FaceTest {
     }
 
     private static void hundred() {
-        FourTongues x = new FourTongues();
+        Counted x = new Counted();
         for (int code = 1; code <= 100; code++) {
             House.due("entry " + code, x.entry(1, 0, code, 1), true);
         }

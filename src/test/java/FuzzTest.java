@@ -27,7 +27,7 @@ public final class FuzzTest {
 
     public static void main(String[] args) {
         int from = args.length > 0 ? Integer.parseInt(args[0]) : 0;
-        int to = args.length > 1 ? Integer.parseInt(args[1]) : 3000;
+        int to = args.length > 1 ? Integer.parseInt(args[1]) : 6000;
         int wrong = 0;
         for (int seed = from; seed < to && wrong == 0; seed++) {
             FuzzTest test = new FuzzTest(seed);
@@ -73,7 +73,7 @@ public final class FuzzTest {
     }
 
     private void house() {
-        FourTongues x = new FourTongues();
+        Counted x = new Counted();
         Model m = new Model();
         int rounds = 1 + upTo(3);
         for (int r = 0; r < rounds && wrong == 0; r++) {
@@ -84,15 +84,18 @@ public final class FuzzTest {
             }
             borders(x, m);
             int calls = 2 + upTo(6);
-            for (int i = 0; i < calls && wrong == 0; i++) {
+            for (int i = 0; i < calls && wrong == 0 && x.left() >= RUN_MOST; i++) {
                 run(x, m);
             }
         }
     }
 
-    private void borders(FourTongues x, Model m) {
+    // calls that one run with all that is asked of it takes at most
+    private static final int RUN_MOST = 90;
+
+    private void borders(Counted x, Model m) {
         int n = upTo(14);
-        for (int i = 0; i < n; i++) {
+        for (int i = 0; i < n && x.left() > 0; i++) {
             int from = upTo(5) - (upTo(20) == 0 ? 1 : 0);
             int to = upTo(4);
             int rule = upTo(upTo(10) == 0 ? 5 : 3) - (upTo(20) == 0 ? 1 : 0);
@@ -100,7 +103,7 @@ public final class FuzzTest {
             due("rule", x.rule(from, to, rule) ? 1 : 0, m.rule(from, to, rule) ? 1 : 0);
         }
         n = upTo(upTo(20) == 0 ? 150 : 14);
-        for (int i = 0; i < n; i++) {
+        for (int i = 0; i < n && x.left() > 0; i++) {
             int from = upTo(5) - (upTo(20) == 0 ? 1 : 0);
             int to = upTo(4);
             int what = upTo(17) - (upTo(5) == 0 ? 2 : 0);
@@ -110,7 +113,7 @@ public final class FuzzTest {
         }
     }
 
-    private void run(FourTongues x, Model m) {
+    private void run(Counted x, Model m) {
         long[] numbers = {0, 1, 2, 3, 5, -1, 9, 4294967296L, Long.MAX_VALUE, Long.MIN_VALUE, 9007199254740993L, 100000000000000000L,
             -100000000000000001L, 2147483647, -2147483648L, Long.MAX_VALUE - 1023};
         int t = upTo(4);
@@ -120,23 +123,43 @@ public final class FuzzTest {
         int got = x.call(t, f, a);
         due("call", got, m.call(t, f, a));
         SEEN[got]++;
-        for (int i = -1; i <= 11; i++) {
+        for (int i = 0; i <= 10; i++) {
             due("look " + i, x.look(i), m.look(i));
         }
         due("answer", x.answer(), m.answer());
-        for (int i = -1; i < 202 && i < m.look(3) + 2; i++) {
+        int marks = m.look(3);
+        for (int n = 0; n < 6; n++) {
+            int i = marks <= 4 ? n - 1 : upTo(Math.min(marks + 2, 204)) - 1;
             due("mark " + i, x.mark(i), m.mark(i));
             due("markTongue " + i, x.markTongue(i), m.markTongue(i));
         }
-        for (int i = -1; i < 6; i++) {
-            for (int what = -1; what < 9; what++) {
-                due("failure " + i + " " + what, x.failure(i, what), m.failure(i, what));
-                for (int k = -1; k < 3; k++) {
-                    due("under " + i + " " + k + " " + what, x.under(i, k, what), m.under(i, k, what));
-                }
-            }
-        }
+        failures(x, m);
         count(m);
+    }
+
+    /** All of what came out and of one that it came from, some of the others and of what lies under them. */
+    private void failures(Counted x, Model m) {
+        int chain = 0;
+        while (m.failure(chain, 0) >= 0) {
+            chain++;
+        }
+        int one = upTo(chain + 2) - 1;
+        for (int what = 0; what <= 6 && chain > 0; what++) {
+            due("failure 0 " + what, x.failure(0, what), m.failure(0, what));
+            due("failure " + one + " " + what, x.failure(one, what), m.failure(one, what));
+        }
+        int i = upTo(chain + 1);
+        int k = upTo(Math.max(m.failure(i, 4), 0) + 1);
+        for (int what = 0; what <= 6 && m.failure(i, 4) > 0; what++) {
+            due("under " + i + " " + k + " " + what, x.under(i, k, what), m.under(i, k, what));
+        }
+        for (int n = 0; n < 4; n++) {
+            int j = upTo(chain + 3) - 1;
+            int what = upTo(10) - 1;
+            int l = upTo(4) - 1;
+            due("failure " + j + " " + what, x.failure(j, what), m.failure(j, what));
+            due("under " + j + " " + l + " " + what, x.under(j, l, what), m.under(j, l, what));
+        }
     }
 
     private static void count(Model m) {
@@ -154,7 +177,7 @@ public final class FuzzTest {
         SEEN[18] += fails > 0 && fails < 10 && fails != 3 && fails != 4 ? 1 : 0;
     }
 
-    private void take(FourTongues x, Model m, int t) {
+    private void take(Counted x, Model m, int t) {
         tongue = t;
         text.setLength(0);
         makeText();
@@ -165,6 +188,10 @@ public final class FuzzTest {
             text.setLength(2980);
         }
         int n = text.length();
+        if (x.left() < n / 20 + 20) {
+            return;
+        }
+        int named = m.look(10);
         log.append("load ").append(t).append(' ').append(n).append('\n').append(text).append('\n');
         while (text.length() % 20 != 0) {
             text.append(' ');
@@ -179,12 +206,12 @@ public final class FuzzTest {
         int got = x.load(t, n);
         due("load", got, m.load(t, n));
         due("fault", x.fault(), m.fault());
-        SEEN[20 + x.fault()]++;
+        SEEN[20 + m.fault()]++;
         due("names", x.look(10), m.look(10));
-        for (int name = -1; name < 54; name++) {
-            for (int k = -1; k < 9; k++) {
-                due("letter", x.letter(name, k), m.letter(name, k));
-            }
+        for (int i = 0; i < 8; i++) {
+            int name = upTo(3) == 0 ? upTo(56) - 2 : named + upTo(m.look(10) - named + 1);
+            int k = upTo(10) - 1;
+            due("letter " + k + " of " + name, x.letter(name, k), m.letter(name, k));
         }
     }
 

@@ -3,7 +3,7 @@ final class House {
     private static int wrong = 0;
     private static int asked = 0;
     private static String sentence = "";
-    final FourTongues x = new FourTongues();
+    final Counted x = new Counted();
     private final String[] texts = {"", "", "", ""};
 
     /** The bytes of a text go onto the TAPE, with blanks up to the next 20. */

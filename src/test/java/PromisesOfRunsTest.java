@@ -235,15 +235,12 @@ public final class PromisesOfRunsTest {
 
     private static void failureSources() {
         House.sentence("what it came from (i 1), and so on");
-        House house = new House();
-        for (int t = 0; t < 4; t++) {
-            if (t != 1) {
-                int next = t == 0 ? 2 : t == 2 ? 3 : 0;
-                house.with(t, "fn f(a) { if (a) { return " + WORDS[next] + ".f(a - 1); } return 1 / 0; }");
-            }
-        }
         int[] order = {0, 2, 3};
         for (int a = 0; a <= 22; a++) {
+            House house = new House();
+            for (int i = 0; i < 3; i++) {
+                house.with(order[i], "fn f(a) { if (a) { return " + WORDS[order[(i + 1) % 3]] + ".f(a - 1); } return 1 / 0; }");
+            }
             house.fails(0, 0, a, a == 0 ? 1 : 9).looks(6, a);
             for (int i = 0; i < a; i++) {
                 house.failure(i, order[i % 3], 9);

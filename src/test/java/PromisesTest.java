@@ -38,22 +38,21 @@ public final class PromisesTest {
 
     private static void usedForFiveHundredAndTwelveCalls() {
         House.sentence("An object is used for at most 512 calls after it has been made");
-        House house = new House();
-        int fed = 2;
-        house.with(0, "fn f(a) { let x = new[400]; x[a] = a; mark x[a]; return codes.f(a); }").with(1, "fn f(a) { on { fail a; } go { return cell; } }");
-        FourTongues x = house.x;
-        fed = (58 + 19) / 20 + (41 + 19) / 20 + 2;
-        for (int i = fed; i + 4 <= 512; i += 4) {
-            House.due("call", x.call(0, 0, i % 399 + 1), 0);
-            House.due("answer", x.answer(), i % 399 + 1);
-            House.due("mark", x.mark(0), i % 399 + 1);
-            House.due("CELL", x.look(9), i % 399 + 1);
+        House house = new House().with(0, "fn f(a) { let x = new[400]; x[a] = a; mark x[a]; return codes.f(a); }").with(1, "fn f(a) { on { fail a; } go { return cell; } }");
+        for (int i = 1; house.x.left() >= 4; i++) {
+            House.due("call", house.x.call(0, 0, i), 0);
+            House.due("answer", house.x.answer(), i);
+            House.due("mark", house.x.mark(0), i);
+            House.due("CELL", house.x.look(9), i);
+        }
+        while (house.x.left() > 0) {
+            House.due("STEPS, up to the last call", house.x.look(2), 11);
         }
     }
 
     private static void newObjectHasNoTexts() {
         House.sentence("No texts");
-        FourTongues x = new FourTongues();
+        Counted x = new Counted();
         for (int t = 0; t < 4; t++) {
             for (int f = -1; f <= 41; f++) {
                 House.due("call of " + t + "." + f, x.call(t, f, 1), 3);
@@ -91,14 +90,14 @@ public final class PromisesTest {
 
     private static void newObjectHasAnEmptyTape() {
         House.sentence("an empty TAPE");
-        House.due("nothing there", new FourTongues().load(0, 1), -5000);
-        House.due("nothing is a text", new FourTongues().load(0, 0), 0);
-        House.due("twenty", new FourTongues().feed(0, 0, 0, 0, 0), 20);
+        House.due("nothing there", new Counted().load(0, 1), -5000);
+        House.due("nothing is a text", new Counted().load(0, 0), 0);
+        House.due("twenty", new Counted().feed(0, 0, 0, 0, 0), 20);
     }
 
     private static void newObjectHasCalledNothing() {
         House.sentence("CELL 0, nothing called; 0 ahead of any run (8 to 10 as they are)");
-        FourTongues x = new FourTongues();
+        Counted x = new Counted();
         for (int what = 0; what <= 9; what++) {
             House.due("look " + what, x.look(what), 0);
         }
@@ -129,13 +128,13 @@ public final class PromisesTest {
         return text.charAt(i) << 24 | text.charAt(i + 1) << 16 | text.charAt(i + 2) << 8 | text.charAt(i + 3);
     }
 
-    private static int feed(FourTongues x, String twenty) {
+    private static int feed(Counted x, String twenty) {
         return x.feed(four(twenty, 0), four(twenty, 4), four(twenty, 8), four(twenty, 12), four(twenty, 16));
     }
 
     private static void feedTwentyBytesTheHighestFirst() {
         House.sentence("Twenty bytes come behind the TAPE, four of each number, the highest first: how many it has");
-        FourTongues x = new FourTongues();
+        Counted x = new Counted();
         House.due("20", feed(x, "fn f(a){return a+1;}"), 20);
         House.due("40", feed(x, "fn g(a){return a*3;}"), 40);
         House.due("60", feed(x, "fn h(a){return -a; }"), 60);
@@ -151,7 +150,7 @@ public final class PromisesTest {
             for (char c : new char[] {0, 127, 128, 200, 255}) {
                 StringBuilder text = new StringBuilder(" ".repeat(20));
                 text.setCharAt(k, c);
-                FourTongues y = new FourTongues();
+                Counted y = new Counted();
                 House.due("20", feed(y, text.toString()), 20);
                 House.due("the place " + k, y.load(1, 20), -k - 1);
                 House.due("kind", y.fault(), 1);
@@ -161,7 +160,7 @@ public final class PromisesTest {
 
     private static void feedUpToThreeThousand() {
         House.sentence("NONE, and none come, if it would have more than 3000");
-        FourTongues x = new FourTongues();
+        Counted x = new Counted();
         for (int i = 1; i <= 149; i++) {
             House.due("feed", feed(x, " ".repeat(20)), 20 * i);
         }
@@ -315,7 +314,7 @@ public final class PromisesTest {
 
     private static void rulesThatAre() {
         House.sentence("The RULE from one TONGUE to another (0, 1, 2): true");
-        FourTongues x = new FourTongues();
+        Counted x = new Counted();
         for (int from = 0; from < 4; from++) {
             for (int to = 0; to < 4; to++) {
                 for (int rule = 0; rule <= 2 && from != to; rule++) {
@@ -506,7 +505,7 @@ public final class PromisesTest {
         house.fails(0, 0, 60, 4).fails(3, 0, -1, 5).fails(0, 0, 61, 6);
         House.due("still a 101st", house.x.entry(1, 0, 61, 2), false);
         // a DEFAULT is none of the 100
-        FourTongues x = new FourTongues();
+        Counted x = new Counted();
         for (int code = 0; code <= 100; code++) {
             House.due("entry " + code, x.entry(1, 0, code, 2), true);
         }
