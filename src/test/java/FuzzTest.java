@@ -21,8 +21,14 @@ public final class FuzzTest {
     private int wrong = 0;
     private final StringBuilder log = new StringBuilder();
 
+    // a tame house's texts seldom fail: a and b are NUMBERS, c is a function, d an array, and functions call only later ones
+    private final boolean tame;
+    private int function;
+    private int guarded = 0;
+
     private FuzzTest(long seed) {
         random = new Random(seed);
+        tame = seed % 2 == 1;
     }
 
     public static void main(String[] args) {
@@ -232,9 +238,10 @@ public final class FuzzTest {
     // ---- texts
 
     private void makeText() {
-        int n = upTo(30) == 0 ? 35 + upTo(8) : 1 + upTo(5);
+        int n = upTo(30) == 0 ? 35 + upTo(8) : tame ? 4 : 1 + upTo(5);
         boolean many = n > 30;
         for (int i = 0; i < n; i++) {
+            function = i;
             if (tongue == 0 && upTo(3) == 0) {
                 put("kind");
                 put(many ? name() + upTo(9) : upTo(20) > 0 ? NAMES[10 + upTo(4)] : name());
@@ -243,19 +250,20 @@ public final class FuzzTest {
                 put(";");
             }
             put("fn");
-            put(i < 4 && upTo(20) > 0 ? FUNCTIONS[i] : "z" + i);
+            put(i < 4 && (tame || upTo(20) > 0) ? FUNCTIONS[i] : "z" + i);
             put("(");
-            int parameters = 1 + (upTo(3) == 0 ? upTo(upTo(40) == 0 ? 5 : 4) : 0);
+            int parameters = 1 + (tame ? 0 : upTo(3) == 0 ? upTo(upTo(40) == 0 ? 5 : 4) : 0);
             for (int k = 0; k < parameters; k++) {
                 put((k > 0 ? ", " : "") + (upTo(400) == 0 ? "a" : k < 4 ? VARIABLES[k] : "e"));
             }
             put(")");
             depth = 1;
+            guarded = 0;
             put("{");
             if (upTo(150) > 0) {
                 declare(parameters, many);
             }
-            int statements = many ? 1 : 1 + upTo(4);
+            int statements = many ? 1 : 1 + upTo(tame ? 3 : 4);
             for (int k = 0; k < statements; k++) {
                 statement();
             }
@@ -269,6 +277,10 @@ public final class FuzzTest {
     }
 
     private void declare(int parameters, boolean many) {
+        if (tame) {
+            put("let b=" + upTo(5) + ";let c=&" + (upTo(2) == 0 ? one(TONGUES) + "." : "") + later() + ";let d=new[2];d[0]=a;d[1]=2;");
+            return;
+        }
         if (parameters < 4 && upTo(3) == 0) {
             // a variable that no statement gives a VALUE
             put("if ( 0 ) { let " + VARIABLES[parameters] + " = 1 ; } mark " + VARIABLES[parameters] + " == none ;");
@@ -287,6 +299,46 @@ public final class FuzzTest {
         return one(NAMES);
     }
 
+    /** A function that calls no earlier one, so that no tame house calls on and on. */
+    private String later() {
+        return FUNCTIONS[Math.min(function + 1 + upTo(3), 3)];
+    }
+
+    private void tameStatement() {
+        switch (upTo(depth > 3 ? 6 : 14)) {
+            case 0: case 1: put(upTo(2) == 0 ? "b =" : "let b ="); tameExpression(); put(";"); break;
+            case 2: put("d [ " + upTo(2) + " ] ="); tameExpression(); put(";"); break;
+            case 3: put("mark"); tameExpression(); put(";"); break;
+            case 4: tameExpression(); put(";"); break;
+            case 5: put("a ="); tameExpression(); put(";"); break;
+            case 6: put("if ("); tameExpression(); put(")"); block(); if (upTo(2) == 0) { put("else"); block(); } break;
+            case 7: put("let e = " + (1 + upTo(4)) + " ; while ( e ) { e = e - 1 ;"); depth++; statement(); depth--; put("}"); break;
+            default: own(); break;
+        }
+    }
+
+    private void tameExpression() {
+        depth++;
+        switch (upTo(depth > 4 || upTo(3) == 0 ? 4 : 15)) {
+            case 0: case 1: put("" + upTo(8)); break;
+            case 2: case 3: put(upTo(2) == 0 ? "a" : "b"); break;
+            case 4: put("d [ " + upTo(upTo(12) == 0 ? 3 : 2) + " ]"); break;
+            case 5: put("size ( d )"); break;
+            case 6: case 7: put("("); tameExpression(); put(one(new String[] {"+", "-", "*", "<", "==", "!=", ">="})); tameExpression(); put(")"); break;
+            case 8: put("("); tameExpression(); put(one(new String[] {"/", "%"}) + " " + (upTo(6) == 0 ? "a" : "3") + " )"); break;
+            case 9: put("- " + (upTo(2) == 0 ? "a" : "b")); break;
+            case 10: put(function < 3 ? "c ! (" : "("); tameExpression(); put(")"); break;
+            case 11: put(function < 3 ? later() + " (" : "("); tameExpression(); put(function < 3 && upTo(4) == 0 ? ", 1 )" : ")"); break;
+            case 12: case 13: put(function < 3 ? one(TONGUES) + " . " + later() + " (" : "("); tameExpression(); put(")"); break;
+            default: ownExpression(); break;
+        }
+        if (tongue == 2 && depth < 6 && upTo(5) == 0) {
+            put("else");
+            tameExpression();
+        }
+        depth--;
+    }
+
     private void block() {
         depth++;
         put("{");
@@ -299,6 +351,10 @@ public final class FuzzTest {
     }
 
     private void statement() {
+        if (tame && upTo(40) > 0) {
+            tameStatement();
+            return;
+        }
         int kind = upTo(depth > 4 ? 6 : 17);
         switch (kind) {
             case 0: put("let " + one(VARIABLES) + " ="); expression(); put(";"); break;
@@ -331,7 +387,7 @@ public final class FuzzTest {
     private void own() {
         switch (tongue) {
             case 0:
-                if (upTo(3) == 0) {
+                if (upTo(3) == 0 && makesFailing()) {
                     put("throw " + name());
                     expression();
                     put(";");
@@ -340,13 +396,13 @@ public final class FuzzTest {
                 }
                 break;
             case 1:
-                if (upTo(2) == 0) {
+                if (upTo(2) == 0 && makesFailing()) {
                     put("fail");
                     expression();
                     put(";");
                 } else {
                     put("on");
-                    block();
+                    guardedBlock();
                     put("go");
                     block();
                 }
@@ -363,12 +419,27 @@ public final class FuzzTest {
         }
     }
 
+    /** A tame house fails where something is there to hold it. */
+    private boolean makesFailing() {
+        return !tame || guarded > 0 || upTo(20) == 0;
+    }
+
+    private void guardedBlock() {
+        guarded++;
+        block();
+        guarded--;
+    }
+
     private void tryCatch() {
         put("try");
-        block();
         int catches = upTo(3);
+        if (catches > 0) {
+            guardedBlock();
+        } else {
+            block();
+        }
         for (int i = 0; i < catches; i++) {
-            put("catch " + name() + " " + (upTo(4) == 0 ? "e" : one(VARIABLES)));
+            put("catch " + (tame && upTo(2) == 0 ? "any" : name()) + " " + (tame || upTo(4) == 0 ? "z" : one(VARIABLES)));
             block();
         }
         if (catches == 0 && upTo(40) > 0 || upTo(2) == 0) {
@@ -379,13 +450,13 @@ public final class FuzzTest {
 
     private void exits() {
         int kind = upTo(3);
-        if (kind == 0) {
-            put("exit " + name());
+        if (kind == 0 && makesFailing()) {
+            put("exit " + (tame && upTo(2) == 0 ? "foo" : name()));
             expression();
             put(";");
         } else if (kind == 1) {
-            put("open " + name() + " " + (upTo(4) == 0 ? "e" : one(VARIABLES)));
-            block();
+            put("open " + (tame ? one(new String[] {"foo", "lost", "zero", "border"}) : name()) + " " + (tame || upTo(4) == 0 ? "z" : one(VARIABLES)));
+            guardedBlock();
             put("then");
             block();
         } else {
@@ -397,6 +468,10 @@ public final class FuzzTest {
     }
 
     private void expression() {
+        if (tame && upTo(40) > 0) {
+            tameExpression();
+            return;
+        }
         depth++;
         int kind = upTo(depth > (upTo(300) == 0 ? 9 : 7) ? 4 : depth > 5 ? 5 : 24);
         switch (kind) {

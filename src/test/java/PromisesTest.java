@@ -1,9 +1,16 @@
-/** Promises 1 to 14 sentence by sentence: the face at its edges. */
+import java.lang.reflect.Field;
+import java.lang.reflect.Method;
+import java.lang.reflect.Modifier;
+import java.util.Arrays;
+import java.util.TreeSet;
+
+/** Promises 1 to 8 sentence by sentence: the face at its edges. */
 public final class PromisesTest {
     private static final String[] WORDS = {"throws", "codes", "values", "exits"};
     private static final int[] ENDS = {Integer.MIN_VALUE, -1000000, -2, -1, 11, 12, 52, 64, 1000000, Integer.MAX_VALUE};
 
     public static void main(String[] args) {
+        publicFace();
         usedForFiveHundredAndTwelveCalls();
         newObjectHasNoTexts();
         newObjectHasRulesNoughtAndNoEntries();
@@ -34,6 +41,27 @@ public final class PromisesTest {
         callByRuleNought();
         cellFromRunToRun();
         House.close("PromisesTest");
+    }
+
+    private static void publicFace() {
+        House.sentence("The public face");
+        TreeSet<String> want = new TreeSet<>(Arrays.asList("int feed[int, int, int, int, int]", "int load[int, int]", "int fault[]", "int letter[int, int]", "boolean rule[int, int, int]", "boolean entry[int, int, int, int]",
+            "int call[int, int, long]", "int look[int]", "long answer[]", "long mark[int]", "int markTongue[int]", "int failure[int, int]", "int under[int, int, int]"));
+        TreeSet<String> got = new TreeSet<>();
+        for (Method method : FourTongues.class.getDeclaredMethods()) {
+            if (!Modifier.isPrivate(method.getModifiers()) && !method.isSynthetic()) {
+                got.add(method.getReturnType() + " " + method.getName() + Arrays.toString(method.getParameterTypes()));
+                House.due(method.getName() + " is public, of an object", Modifier.isPublic(method.getModifiers()) && !Modifier.isStatic(method.getModifiers()), true);
+            }
+        }
+        House.due("the methods " + got, got.equals(want), true);
+        for (Field field : FourTongues.class.getDeclaredFields()) {
+            House.due("only NONE is open, not " + field.getName(), Modifier.isPrivate(field.getModifiers()) || field.isSynthetic(), !field.getName().equals("NONE"));
+        }
+        House.due("NONE", FourTongues.NONE, -1);
+        House.due("one constructor", FourTongues.class.getDeclaredConstructors().length, 1);
+        House.due("without arguments, public", FourTongues.class.getConstructors().length == 1 && FourTongues.class.getConstructors()[0].getParameterCount() == 0, true);
+        House.due("public and final", Modifier.isPublic(FourTongues.class.getModifiers()) && Modifier.isFinal(FourTongues.class.getModifiers()), true);
     }
 
     private static void usedForFiveHundredAndTwelveCalls() {

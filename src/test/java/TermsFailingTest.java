@@ -39,6 +39,7 @@ public final class TermsFailingTest {
         notUnderItself();
         manyUnder();
         manyGuards();
+        variablesStay();
         House.close("TermsFailingTest");
     }
 
@@ -432,5 +433,29 @@ public final class TermsFailingTest {
         for (String turn : new String[] {"clean { } do { a = a - 1; }", "open foo x { a = a - 1; } then { }", "open foo x { a = a - 1; exit foo 1; } then { }", "open foo x { g(); } then { } a = a - 1;", "h(); a = a - 1;"}) {
             new House().with(3, "fn f(a) { while (a) { " + turn + " } open foo x { clean { mark 1; } do { exit foo 5; } } then { return x; } } fn g() { clean { } do { exit foo 1; } } fn h() { clean { } do { return 1; } }").answersReal(3, 0, 500, 5).marksOf(3, 1);
         }
+    }
+
+    private static final String[] FAILING = {"none + 1;", "7 < none;", "-none;", "1 / 0;", "new[none];", "size(1);", "size(none);", "x[none];", "x[9];", "n[0];", "x[9] = 1;", "x[none] = 1;", "n[0] = 1;", "no(1, 2);", "n!(1);", "a!(1, 2);", "&no;", "mark none;", "if (none) { }", "while (none) { }",
+        "AWAY.no(1, 2);", "AWAY.b(1, 2);", "g(1, 1 / 0);", "7 + (8 + (9 + none));", "g(1, 2, n[0]);", "7 + AWAY.b(1);"};
+
+    private static void variablesStay() {
+        House.sentence("all is well: the function's variables are what they were");
+        String ahead = "fn g() { } fn f(a) { let x = new[2]; x[1] = 8; let n = none; let c = -2147483647 - 1; let b = 6; ";
+        String behind = " mark a; mark b; mark x[1]; mark n == none; mark c; b = b + 1; return b; }";
+        String other = "fn b(a) { return 1 / 0; }";
+        for (String failing : FAILING) {
+            new House().with(0, ahead + "try { " + failing.replace("AWAY", "codes") + " mark 99; } catch any e { }" + behind).with(1, other).answers(0, 1, 5, 7).marks(5, 6, 8, 1, -2147483648L);
+            new House().with(1, ahead + "on { " + failing.replace("AWAY", "values") + " mark 99; } go { }" + behind).with(2, other).answers(1, 1, 5, 7).marks(5, 6, 8, 1, -2147483648L);
+            new House().with(3, ahead + "open zero e { open index e { open nothing e { open sort e { open border e { " + failing.replace("AWAY", "throws") + " mark 99; } then { } } then { } } then { } } then { } } then { }" + behind).with(0, other).answersReal(3, 1, 5, 7).marksOf(3, 5, 6, 8, 1, -2147483648L);
+            if (failing.contains("= 1") || failing.startsWith("mark") || failing.startsWith("if") || failing.startsWith("while")) {
+                new House().with(2, ahead + "with { " + failing + " mark 99; } end { " + behind + " }").answers(2, 1, 5, 7).marks(5, 6, 8, 1, -2147483648L);
+            }
+        }
+        for (String failing : new String[] {"-c;", "c - 1;", "c * 2;", "fail none;", "fail x;", "fail 3;", "fail &g;", "g(-c);"}) {
+            new House().with(1, ahead + "on { " + failing + " mark 99; } go { }" + behind).answers(1, 1, 5, 7).marks(5, 6, 8, 1, -2147483648L);
+        }
+        new House().with(0, ahead + "try { throw foo 3; } catch foo e { }" + behind).answers(0, 1, 5, 7).marks(5, 6, 8, 1, -2147483648L);
+        new House().with(3, ahead + "open lost e { exit foo 3; } then { }" + behind).answersReal(3, 1, 5, 7).marksOf(3, 5, 6, 8, 1, -2147483648L);
+        new House().with(3, ahead + "open foo e { exit foo 3; } then { }" + behind).answersReal(3, 1, 5, 7).marksOf(3, 5, 6, 8, 1, -2147483648L);
     }
 }

@@ -8,6 +8,7 @@ public final class TermsThreeTest {
         argumentsTooMany();
         partsFromTheLeft();
         partsWithinParts();
+        callsOfEachTongue();
         callsThatFindNone();
         heldCallsThatFindNone();
         stepsOfStatements();
@@ -30,6 +31,7 @@ public final class TermsThreeTest {
         newOfNumbers();
         twentyThousandCells();
         sizes();
+        eachArrayItsOwn();
         cellsThatAreNot();
         cellsAreAskedInOrder();
         cellsOfAnotherTongue();
@@ -103,6 +105,24 @@ public final class TermsThreeTest {
             }
             for (String one : new String[] {"1 < 2", "2 <= 2", "2 > 1", "2 >= 2", "2 == 2", "1 != 2"}) {
                 new House().with(t, "fn g(a, b, c) { return a * 100 + b * 10 + c; } fn f(a) { return g(3, " + one + ", 4); } fn h(a) { return 20 - (" + one + "); }").answersWhole(t, 1, 0, 314).answersWhole(t, 2, 0, 19);
+            }
+        }
+    }
+
+    private static void callsOfEachTongue() {
+        House.sentence("NAME ( ) calls the function of this TONGUE, T . that of T, ! the function that the variable is; & is that function");
+        House house = new House();
+        for (int t = 0; t < 4; t++) {
+            StringBuilder text = new StringBuilder("fn e() { } fn f(a) { return a + 1" + t + "; } fn own(a) { return f(a) * 1000 + held(&f, a); } fn held(p, a) { return p!(a); } ");
+            for (int u = 0; u < 4; u++) {
+                text.append("fn g").append(u).append("(a) { let p = &").append(WORDS[u]).append(".f; return ").append(WORDS[u]).append(".f(a) * 1000 + p!(a); } fn h").append(u).append("(a) { return &").append(WORDS[u]).append(".f; } ");
+            }
+            house.with(t, text.toString());
+        }
+        for (int t = 0; t < 4; t++) {
+            house.answersWhole(t, 2, 20, (30 + t) * 1001);
+            for (int u = 0; u < 4; u++) {
+                house.answersWhole(t, 4 + 2 * u, 20, (30 + u) * 1001).looks(5, t == u ? 0 : 2).answers(t, 5 + 2 * u, 20, 64 * u + 1).looks(1, 3);
             }
         }
     }
@@ -505,6 +525,15 @@ public final class TermsThreeTest {
         for (int t = 0; t < 4; t++) {
             House house = new House().with(t, "fn f(a) { return size(new[a]); } fn g(a) { return size(a); } fn h(a) { return size(none); } fn k(a) { return size(&f); } fn l(a) { let x = " + WORDS[other(t)] + ".m(a); return size(x); }").with(other(t), "fn m(a) { return new[a]; }");
             house.answersWhole(t, 0, 0, 0).answersWhole(t, 0, 400, 400).fails(t, 1, 0, 4).fails(t, 1, 5, 4).fails(t, 2, 0, 3).fails(t, 3, 0, 4).answersWhole(t, 4, 3, 3);
+        }
+    }
+
+    private static void eachArrayItsOwn() {
+        House.sentence("size, x [ i ], x [ i ] = E: of the array that x is, be there others");
+        for (int t = 0; t < 4; t++) {
+            House house = new House().with(t, "fn f(a) { let x = new[2]; let y = new[3]; let z = new[0]; mark size(x); mark size(y); mark size(z); mark size(new[7]); x[0] = 1; x[1] = 2; y[0] = 3; y[1] = 4; y[2] = 5; return x[0] * 10000 + x[1] * 1000 + y[0] * 100 + y[1] * 10 + y[2]; } "
+                + "fn g(a) { let x = new[2]; let y = new[3]; if (a) { return y; } return x; } fn h(a) { let x = new[2]; let y = new[3]; y[a] = 1; return x[a]; } fn k(a) { let y = new[3]; let x = new[2]; return x[a]; }");
+            house.answersWhole(t, 0, 0, 12345).marksOf(t, 2, 3, 0, 7).answers(t, 1, 0, 2).answers(t, 1, 1, 3).looks(1, 2).answersNone(t, 2, 1).fails(t, 2, 2, 2).fails(t, 2, 3, 2).answersNone(t, 3, 1).fails(t, 3, 2, 2);
         }
     }
 
