@@ -238,6 +238,10 @@ public final class PromisesTest {
         house.feedText("fn h(a) { }");
         House.due("nothing taken of it", house.x.load(1, 0), 0);
         House.due("no byte is left", house.x.load(1, 1), -5000);
+        house.feedText("fn h(a) { ? } fn k(a) { }");
+        House.due("with a FAULT", house.x.load(1, 11), -10 - 1);
+        House.due("no byte is left", house.x.load(1, 1), -5000);
+        House.due("it begins anew", house.feedText("fn k(a) { }"), 20);
     }
 
     private static void loadTellsHowManyFunctions() {

@@ -76,8 +76,11 @@ public final class TermsFailingTest {
             house.answers(0, 0, a, 1).fails(0, 1, a, a == 1 ? 1 : a == 2 ? 3 : a == 3 ? 5 : a == 4 ? 4 : 9);
             House.due("its VALUE", house.x.failure(0, 5), 0);
         }
-        // what E itself throws comes first
-        new House().with(0, "fn f(a) { throw foo 1 / 0; }").fails(0, 0, 0, 1);
+        // what E itself fails with comes first, in each TONGUE
+        new House().with(0, "fn f(a) { throw foo 1 / 0; }").fails(0, 0, 0, 1).looks(2, 3);
+        new House().with(1, "fn f(a) { fail 1 / 0; }").fails(1, 0, 0, 1).looks(2, 3);
+        new House().with(2, "fn f(a) { return bad foo(1 / 0); }").fails(2, 0, 0, 1).looks(2, 3);
+        new House().with(3, "fn f(a) { open foo x { exit foo 1 / 0; } then { } }").fails(3, 0, 0, 1).looks(2, 4);
     }
 
     private static void innermostTryWithACatch() {

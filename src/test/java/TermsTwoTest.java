@@ -17,6 +17,7 @@ public final class TermsTwoTest {
         ownStatements();
         ownExpressions();
         elseOfAnExpression();
+        signsBind();
         faultOneAtTheFirstByte();
         faultOneAtTheLength();
         faultOneAtTooDeep();
@@ -307,6 +308,21 @@ public final class TermsTwoTest {
         House.faulty(2, "fn f(a){a else;}", 1, 14);
         House.faulty(2, "fn f(a){a else else 1;}", 1, 15);
         House.faulty(2, "fn f(a){-else 1;}", 1, 9);
+    }
+
+    private static void signsBind() {
+        House.sentence("Q: A [ .. A ]. A: M { ( '+' | '-' ) M }. M: U { ( '*' | '/' | '%' ) U }. U: '-' U | P");
+        String[] expressions = {"2 + 3 * 4", "2 * 3 + 4", "20 - 5 - 3", "100 / 5 / 2", "7 % 4 * 2", "2 * 7 % 4", "2 + 3 < 3 * 2", "3 * 2 < 2 + 3", "-2 + 5", "--2", "7 - -2", "-2 * -3", "(2 + 3) * 4", "20 - (5 - 3)", "-(2 + 3) + 8", "2 == 1 + 1", "6 - 1 != 10 / 2", "2 * (3 < 4)", "1 - 2 + 3 - 4 + 5", "-a + a * 2", "a % 3 + a / 5"};
+        long[] answers = {14, 10, 12, 10, 6, 2, 1, 0, 3, 2, 9, 6, 20, 18, 3, 1, 0, 2, 3, 5, 3};
+        for (int t = 0; t < 4; t++) {
+            for (int i = 0; i < answers.length; i++) {
+                new House().with(t, "fn f(a) { return " + expressions[i] + "; }").answersWhole(t, 0, 5, answers[i]);
+            }
+        }
+        // - ahead is worked out ahead of *: the least int has none
+        new House().with(1, "fn f(a) { return -a * 0; } fn g(a) { return 0 * -a; } fn h(a) { return -(a * 0); }").fails(1, 0, -2147483648L, 7).fails(1, 1, -2147483648L, 7).answers(1, 2, -2147483648L, 0);
+        new House().with(3, "fn f(a) { return -a[0]; }").fails(3, 0, 1, 4);
+        new House().with(0, "fn f(a) { let x = new[1]; x[0] = 4; return -x[0] - -f2(3); } fn f2(a) { return a; }").answers(0, 0, 0, -1);
     }
 
     private static void faultOneAtTheFirstByte() {
