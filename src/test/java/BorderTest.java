@@ -1,7 +1,5 @@
 /** Section 4: what goes over borders (promises 6, 7, 8, 9, 13). */
 public final class BorderTest {
-    private static final String[] WORDS = {"throws", "codes", "values", "exits"};
-
     public static void main(String[] args) {
         ruleNought();
         ruleOne();
@@ -19,7 +17,7 @@ public final class BorderTest {
 
     /** A house whose function 0 of TONGUE from gives a NUMBER to TONGUE to as an argument. */
     private static House going(int from, int to, int rule, String number) {
-        House house = new House().with(from, "fn f(a) { return " + WORDS[to] + ".g(" + number + "); }").with(to, "fn g(a) { mark a; }");
+        House house = new House().with(from, "fn f(a) { return " + House.TONGUES[to] + ".g(" + number + "); }").with(to, "fn g(a) { mark a; }");
         House.due("rule", house.x.rule(from, to, rule), true);
         return house;
     }

@@ -3,6 +3,7 @@ final class House {
     private static int wrong = 0;
     private static int asked = 0;
     private static String sentence = "";
+    static final String[] TONGUES = {"throws", "codes", "values", "exits"};
     final Counted x = new Counted();
     private final String[] texts = {"", "", "", ""};
 

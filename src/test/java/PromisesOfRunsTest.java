@@ -1,7 +1,5 @@
 /** Promises 9 to 14 sentence by sentence: what is told of the latest run. */
 public final class PromisesOfRunsTest {
-    private static final String[] WORDS = {"throws", "codes", "values", "exits"};
-
     public static void main(String[] args) {
         lookOfTheLatestRun();
         lookAtTheAnswersSort();
@@ -105,7 +103,7 @@ public final class PromisesOfRunsTest {
     private static void lookAtFrames() {
         House.sentence("7: FRAMES at most");
         for (int t = 0; t < 4; t++) {
-            House house = new House().with(t, "fn f(a) { if (a) { f(a - 1); } return a; } fn g(a) { f(5); f(2); " + WORDS[(t + 1) % 4] + ".f(); }").with((t + 1) % 4, "fn f() { }");
+            House house = new House().with(t, "fn f(a) { if (a) { f(a - 1); } return a; } fn g(a) { f(5); f(2); " + House.TONGUES[(t + 1) % 4] + ".f(); }").with((t + 1) % 4, "fn f() { }");
             house.answersWhole(t, 0, 0, 0).looks(7, 1).answersWhole(t, 0, 1, 1).looks(7, 2).answersWhole(t, 0, 23, 23).looks(7, 24).answersNone(t, 1, 0).looks(7, 7).answersWhole(t, 0, 0, 0).looks(7, 1);
         }
     }
@@ -239,7 +237,7 @@ public final class PromisesOfRunsTest {
         for (int a = 0; a <= 22; a++) {
             House house = new House();
             for (int i = 0; i < 3; i++) {
-                house.with(order[i], "fn f(a) { if (a) { return " + WORDS[order[(i + 1) % 3]] + ".f(a - 1); } return 1 / 0; }");
+                house.with(order[i], "fn f(a) { if (a) { return " + House.TONGUES[order[(i + 1) % 3]] + ".f(a - 1); } return 1 / 0; }");
             }
             house.fails(0, 0, a, a == 0 ? 1 : 9).looks(6, a);
             for (int i = 0; i < a; i++) {

@@ -6,7 +6,6 @@ import java.util.TreeSet;
 
 /** Promises 1 to 8 sentence by sentence: the face at its edges. */
 public final class PromisesTest {
-    private static final String[] WORDS = {"throws", "codes", "values", "exits"};
     private static final int[] ENDS = {Integer.MIN_VALUE, -1000000, -2, -1, 11, 12, 52, 64, 1000000, Integer.MAX_VALUE};
 
     public static void main(String[] args) {
@@ -89,7 +88,7 @@ public final class PromisesTest {
         for (int t = 0; t < 4; t++) {
             for (int u = 0; u < 4; u++) {
                 if (t != u) {
-                    new House().with(t, "fn f(a) { return " + WORDS[u] + ".f(a); }").fails(t, 0, 1, 3);
+                    new House().with(t, "fn f(a) { return " + House.TONGUES[u] + ".f(a); }").fails(t, 0, 1, 3);
                 }
             }
         }
@@ -105,9 +104,9 @@ public final class PromisesTest {
                 if (t != u) {
                     String number = u == 3 && t != 1 ? "9007199254740993" : t == 0 && u == 2 ? "100000000000000001" : not[t];
                     if (t != 1 && !(t == 2 && u == 0)) {
-                        new House().with(t, "fn f(a) { return " + WORDS[u] + ".f(" + number + "); }").with(u, "fn f(a) { }").fails(t, 0, 1, 9);
+                        new House().with(t, "fn f(a) { return " + House.TONGUES[u] + ".f(" + number + "); }").with(u, "fn f(a) { }").fails(t, 0, 1, 9);
                     }
-                    House house = new House().with(u, "fn f(a) { " + failing[u] + " }").with(t, t == 1 ? "fn f(a) { " + WORDS[u] + ".f(a); fail cell; }" : "fn f(a) { return " + WORDS[u] + ".f(a); }").fails(t, 0, 1, 9);
+                    House house = new House().with(u, "fn f(a) { " + failing[u] + " }").with(t, t == 1 ? "fn f(a) { " + House.TONGUES[u] + ".f(a); fail cell; }" : "fn f(a) { return " + House.TONGUES[u] + ".f(a); }").fails(t, 0, 1, 9);
                     if (t != 1) {
                         House.due("by a DEFAULT", house.x.failure(0, 3), 2);
                     }
@@ -379,7 +378,7 @@ public final class PromisesTest {
             StringBuilder text = new StringBuilder("fn b(a) { }");
             for (int to = 0; to < 4; to++) {
                 String number = notTurned(from, to);
-                text.append("fn f").append(to).append("(a) { return ").append(from == to || number == null ? "1" : WORDS[to] + ".b(" + number + ")").append("; }");
+                text.append("fn f").append(to).append("(a) { return ").append(from == to || number == null ? "1" : House.TONGUES[to] + ".b(" + number + ")").append("; }");
             }
             house.with(from, text.toString());
         }
@@ -439,7 +438,7 @@ public final class PromisesTest {
         for (int t = 0; t < 4; t++) {
             StringBuilder text = new StringBuilder("fn b(a) { return 1 / 0; }");
             for (int u = 0; u < 4; u++) {
-                text.append("fn f").append(u).append("(a) { ").append(t == 1 ? WORDS[u] + ".b(); fail cell;" : "return " + WORDS[u] + ".b();").append(" }");
+                text.append("fn f").append(u).append("(a) { ").append(t == 1 ? House.TONGUES[u] + ".b(); fail cell;" : "return " + House.TONGUES[u] + ".b();").append(" }");
             }
             house.with(t, text.toString());
         }

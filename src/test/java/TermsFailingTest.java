@@ -35,6 +35,7 @@ public final class TermsFailingTest {
         cleanAndDo();
         takesThePlaceByReturn();
         takesThePlaceByFailing();
+        takenPlaceIsHeld();
         inFrontOfThoseUnder();
         notUnderItself();
         manyUnder();
@@ -381,6 +382,20 @@ public final class TermsFailingTest {
         house = new House().with(3, "fn f(a) { clean { a = 1 / 0; } do { if (a == 1) { exit lost 1; } if (a == 2) { return 2; } } } fn g(a) { open bar x { clean { exit bar 4; } do { exit trap 1; } } then { return x; } } fn h(a) { open trap y { open bar x { clean { exit bar 4; } do { exit trap 1; } } then { return x; } } then { mark 9; } }");
         house.fails(3, 0, 0, 1).failure(0, 3, 1, 18, 0, 0).fails(3, 0, 2, 1).failure(0, 3, 1, 18, 0, 0).fails(3, 0, 1, 1).failure(0, 3, 1, 18, 0, 1).underAt(0, 0, 3, 8, "exit lost 1;", 0, 0, 0, 0);
         house.answersReal(3, 1, 0, 4).answersReal(3, 2, 0, 4).marks();
+    }
+
+    private static void takenPlaceIsHeld() {
+        House.sentence("that takes the place of what was under way: also where something holds it");
+        new House().with(0, "fn f(a) { try { try { return 1; } finally { throw foo 2; } } catch foo x { mark x; } return 9; }").answers(0, 0, 0, 9).marks(2);
+        new House().with(0, "fn f(a) { try { try { throw bar 1; } finally { throw foo 2; } } catch bar x { mark 8; } catch foo x { mark x; } return 9; }").answers(0, 0, 0, 9).marks(2);
+        new House().with(0, "fn f(a) { while (a) { a = a - 1; try { try { return 1; } finally { if (a) { throw foo a; } } } catch foo x { mark x; } } }").answers(0, 0, 3, 1).marks(2, 1);
+        new House().with(3, "fn f(a) { open foo x { clean { exit foo 2; } do { return 1; } } then { mark x; } return 9; }").answersReal(3, 0, 0, 9).marksOf(3, 2);
+        new House().with(3, "fn f(a) { open bar y { open foo x { clean { exit foo 2; } do { exit bar 1; } } then { mark x; } mark 3; } then { mark 8; } return 9; }").answersReal(3, 0, 0, 9).marksOf(3, 2, 3);
+        // what is held within the finishing B leaves under way what was
+        new House().with(0, "fn f(a) { try { return 1; } finally { try { throw foo 2; } catch foo x { mark x; } mark 3; } }").answers(0, 0, 0, 1).marks(2, 3);
+        new House().with(0, "fn f(a) { try { throw bar 1; } finally { g(); mark 3; } } fn g() { try { return 5; } finally { mark 2; } }").fails(0, 0, 0, 12).marks(2, 3).under(0, 0, -1);
+        new House().with(2, "fn f(a) { with { return 1; } end { g(); bad foo(2); mark 3; } } fn g() { return bad bar(1); }").answers(2, 0, 0, 1).marks(3).looks(4, 2);
+        new House().with(3, "fn f(a) { open bar y { clean { open bar x { exit bar 2; } then { mark x; } } do { exit bar 1; } } then { mark y; } return 9; }").answersReal(3, 0, 0, 9).marksOf(3, 2, 1);
     }
 
     private static void inFrontOfThoseUnder() {

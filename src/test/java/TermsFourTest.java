@@ -3,7 +3,6 @@ import java.math.BigInteger;
 
 /** Terms 4 sentence by sentence: what goes over BORDERS, and what fails there. */
 public final class TermsFourTest {
-    private static final String[] WORDS = {"throws", "codes", "values", "exits"};
     private static final BigInteger WHOLE = BigInteger.TEN.pow(17);
     private static final BigInteger LEAST_LONG = BigInteger.valueOf(Long.MIN_VALUE);
     private static final BigInteger MOST_LONG = BigInteger.valueOf(Long.MAX_VALUE);
@@ -104,8 +103,8 @@ public final class TermsFourTest {
                     continue;
                 }
                 String number = from == 0 && to == 3 || from == 2 && to == 3 ? "9007199254740993" : not[from];
-                House house = new House().with(from, "fn e() { } fn f(a) { mark 1;\n return " + WORDS[to] + ".g(" + number + "); } fn h(a) { let p = &" + WORDS[to] + ".g; return p!(a, " + number + "); }").with(to, "fn g(a) { mark 2; }");
-                house.fails(from, 1, 0, 9).marksOf(from, 1).failureAt(0, from, 9, "return " + WORDS[to], 0, 0, 0, 1).failure(1, -1).looks(5, 0).looks(6, 0).looks(7, 1);
+                House house = new House().with(from, "fn e() { } fn f(a) { mark 1;\n return " + House.TONGUES[to] + ".g(" + number + "); } fn h(a) { let p = &" + House.TONGUES[to] + ".g; return p!(a, " + number + "); }").with(to, "fn g(a) { mark 2; }");
+                house.fails(from, 1, 0, 9).marksOf(from, 1).failureAt(0, from, 9, "return " + House.TONGUES[to], 0, 0, 0, 1).failure(1, -1).looks(5, 0).looks(6, 0).looks(7, 1);
                 house.fails(from, 2, 0, 9).marks().failureAt(0, from, 9, "return p!", 0, 0, 0, 2).looks(5, 0);
             }
         }
@@ -138,7 +137,7 @@ public final class TermsFourTest {
         for (int from = 0; from < 4; from++) {
             for (int to = 0; to < 4; to++) {
                 if (from != to) {
-                    House house = new House().with(from, "fn f(a) { let x = new[2]; x[0] = 7; mark " + WORDS[to] + ".g(none) == none; mark " + WORDS[to] + ".g(x) == x; mark " + WORDS[to] + ".g(&f) == &f; let h = " + WORDS[to] + ".h(); mark h == &" + WORDS[to] + ".g; mark h!(x) == x; return x[0]; }")
+                    House house = new House().with(from, "fn f(a) { let x = new[2]; x[0] = 7; mark " + House.TONGUES[to] + ".g(none) == none; mark " + House.TONGUES[to] + ".g(x) == x; mark " + House.TONGUES[to] + ".g(&f) == &f; let h = " + House.TONGUES[to] + ".h(); mark h == &" + House.TONGUES[to] + ".g; mark h!(x) == x; return x[0]; }")
                         .with(to, "fn g(a) { return a; } fn h() { return &g; }");
                     house.answersWhole(from, 0, 0, 7).marksOf(from, 1, 1, 1, 1, 1).looks(5, 5).looks(6, 0);
                     house.x.rule(from, to, 1);
@@ -155,7 +154,7 @@ public final class TermsFourTest {
             for (int to = 0; to < 4; to++) {
                 if (from != to) {
                     for (String number : NUMBERS[from]) {
-                        House house = new House().with(from, "fn f(a) { return " + WORDS[to] + ".g(" + number + "); }").with(to, "fn g(a) { mark a; }");
+                        House house = new House().with(from, "fn f(a) { return " + House.TONGUES[to] + ".g(" + number + "); }").with(to, "fn g(a) { mark a; }");
                         if (told) {
                             House.due("rule", house.x.rule(from, to, rule), true);
                         }
@@ -179,13 +178,13 @@ public final class TermsFourTest {
     }
 
     private static void goes(int from, int to, int rule, String number, long want) {
-        House house = new House().with(from, "fn f(a) { return " + WORDS[to] + ".g(" + number + "); }").with(to, "fn g(a) { mark a; }");
+        House house = new House().with(from, "fn f(a) { return " + House.TONGUES[to] + ".g(" + number + "); }").with(to, "fn g(a) { mark a; }");
         house.x.rule(from, to, rule);
         house.answersNone(from, 0, 0).marks(want);
     }
 
     private static void stays(int from, int to, String number) {
-        House house = new House().with(from, "fn f(a) { return " + WORDS[to] + ".g(" + number + "); }").with(to, "fn g(a) { mark a; }");
+        House house = new House().with(from, "fn f(a) { return " + House.TONGUES[to] + ".g(" + number + "); }").with(to, "fn g(a) { mark a; }");
         house.x.rule(from, to, 0);
         house.fails(from, 0, 0, 9).marks();
     }
@@ -287,7 +286,7 @@ public final class TermsFourTest {
     /** TONGUE to calls a function of TONGUE from that fails; what comes of it is the FAILURE that comes out. */
     private static House over(int from, int to) {
         House house = new House().with(from, "fn z() { } fn b(a) { " + FAILING[from] + " }");
-        return house.with(to, "fn f(a) { " + (to == 1 ? "on { codes1; } go { fail cell; }" : to == 2 ? "return codes1;" : "codes1;").replace("codes1", WORDS[from] + ".b(a)") + " mark 9; }");
+        return house.with(to, "fn f(a) { " + (to == 1 ? "on { codes1; } go { fail cell; }" : to == 2 ? "return codes1;" : "codes1;").replace("codes1", House.TONGUES[from] + ".b(a)") + " mark 9; }");
     }
 
     private static void failuresOverEachBorder() {
@@ -424,7 +423,7 @@ public final class TermsFourTest {
     private static void notOverHomeCalls() {
         House.sentence("A call from one TONGUE to another: one's own TONGUE is none");
         for (int t = 0; t < 4; t++) {
-            House house = new House().with(t, "fn f(a) { return " + WORDS[t] + ".g(a); } fn g(a) { return a; } fn h(a) { let p = &" + WORDS[t] + ".g; return p!(a); }");
+            House house = new House().with(t, "fn f(a) { return " + House.TONGUES[t] + ".g(a); } fn g(a) { return a; } fn h(a) { let p = &" + House.TONGUES[t] + ".g; return p!(a); }");
             house.answersWhole(t, 0, 5, 5).looks(5, 0).looks(2, 3).answersWhole(t, 2, 5, 5).looks(5, 0).looks(2, 4);
         }
         new House().with(0, "fn f(a) { try { return throws.g(a); } catch foo x { return x; } } fn g(a) { throw foo a; }").answers(0, 0, Long.MIN_VALUE, Long.MIN_VALUE).looks(6, 0);

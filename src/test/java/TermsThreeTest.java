@@ -1,7 +1,5 @@
 /** Terms 3 sentence by sentence, up to FAILING: calls, STEPS, FRAMES, signs, arrays, MARKS. */
 public final class TermsThreeTest {
-    private static final String[] WORDS = {"throws", "codes", "values", "exits"};
-
     public static void main(String[] args) {
         variablesAreNone();
         argumentsThatLack();
@@ -60,7 +58,7 @@ public final class TermsThreeTest {
     private static void argumentsThatLack() {
         House.sentence("arguments that lack: none");
         for (int t = 0; t < 4; t++) {
-            House house = new House().with(t, "fn f(a, b, c, d) { mark a == none; mark b == none; mark c == none; mark d == none; } fn g(a) { f(); f(1); let h = &f; h!(1, 2, 3); " + WORDS[other(t)] + ".f(); " + WORDS[other(t)] + ".f(1); }")
+            House house = new House().with(t, "fn f(a, b, c, d) { mark a == none; mark b == none; mark c == none; mark d == none; } fn g(a) { f(); f(1); let h = &f; h!(1, 2, 3); " + House.TONGUES[other(t)] + ".f(); " + House.TONGUES[other(t)] + ".f(1); }")
                 .with(other(t), "fn f(a, b) { if (a == none) { return 1 / 0; } if (b != none) { return 1 / 0; } } ");
             house.answersNone(t, 0, 3).marksOf(t, 0, 1, 1, 1);
             house.x.call(t, 1, 3);
@@ -76,7 +74,7 @@ public final class TermsThreeTest {
         House.sentence("what is too many is worked out and let go");
         for (int t = 0; t < 4; t++) {
             House house = new House().with(t, "fn n() { if (0) { let b = 1; } return b; } fn one(a) { if (0) { let b = 1; } mark a; return b; } fn mk(a) { mark a; return a; } "
-                + "fn f(a) { return n(mk(1), mk(2)); } fn g(a) { return one(mk(3), mk(4), mk(5), mk(6), mk(7), mk(8), mk(9), mk(10)); } fn h(a) { let h = &one; return h!(mk(1), mk(2)); } fn k(a) { return " + WORDS[other(t)] + ".one(mk(1), mk(2)); }")
+                + "fn f(a) { return n(mk(1), mk(2)); } fn g(a) { return one(mk(3), mk(4), mk(5), mk(6), mk(7), mk(8), mk(9), mk(10)); } fn h(a) { let h = &one; return h!(mk(1), mk(2)); } fn k(a) { return " + House.TONGUES[other(t)] + ".one(mk(1), mk(2)); }")
                 .with(other(t), "fn one(a) { if (0) { let b = 1; } return b; }");
             house.answersNone(t, 0, 5).answersNone(t, 3, 5).marksOf(t, 1, 2);
             house.answersNone(t, 4, 5).marksOf(t, 3, 4, 5, 6, 7, 8, 9, 10, 3).answersNone(t, 5, 5).marksOf(t, 1, 2, 1).answersNone(t, 6, 5).marksOf(t, 1, 2);
@@ -87,7 +85,7 @@ public final class TermsThreeTest {
         House.sentence("Parts are worked out from the left");
         for (int t = 0; t < 4; t++) {
             House house = new House().with(t, "fn m(a) { mark a; return a; } fn f(a) { m(1) - m(2) * m(3) + m(4); } fn g(a) { n(m(1), m(2), m(3)); } fn n(a) { } fn h(a) { m(1) < m(2); m(3) == m(4); } fn k(a) { let x = new[9]; x[m(5)] = m(6); } "
-                + "fn l(a) { let x = &n; x!(m(1), m(2)); } fn o(a) { " + WORDS[other(t)] + ".n(m(1), m(2)); } fn p(a) { return 20 - 5 - 3; } fn q(a) { return 100 / 5 / 2 * 3 % 7; }").with(other(t), "fn n(a) { }");
+                + "fn l(a) { let x = &n; x!(m(1), m(2)); } fn o(a) { " + House.TONGUES[other(t)] + ".n(m(1), m(2)); } fn p(a) { return 20 - 5 - 3; } fn q(a) { return 100 / 5 / 2 * 3 % 7; }").with(other(t), "fn n(a) { }");
             house.answersNone(t, 1, 0).marksOf(t, 1, 2, 3, 4).answersNone(t, 2, 0).marksOf(t, 1, 2, 3).answersNone(t, 4, 0).marksOf(t, 1, 2, 3, 4).answersNone(t, 5, 0).marksOf(t, 5, 6);
             house.answersNone(t, 6, 0).marksOf(t, 1, 2).answersNone(t, 7, 0).marksOf(t, 1, 2).answersWhole(t, 8, 0, 12).answersWhole(t, 9, 0, 2);
         }
@@ -96,7 +94,7 @@ public final class TermsThreeTest {
     private static void partsWithinParts() {
         House.sentence("Parts are worked out from the left: none of them touches those ahead of it");
         for (int t = 0; t < 4; t++) {
-            String away = WORDS[other(t)];
+            String away = House.TONGUES[other(t)];
             String[] parts = {"2", "1 + 1", "4 - 2", "1 * 2", "6 / 3", "8 % 6", "(1 < 2) + 1", "(2 == 2) + 1", "1 + (1 != 2)", "-(0 - 2)", "size(new[2])", "x[1]", "h(2)", "p!(2)", away + ".h(2)", "q!(2)", "y[0]", "size(y)", "h(1, h(5), 6) + 1", "(((2)))"};
             for (String part : parts) {
                 House house = new House().with(t, "fn h(a) { return a; } fn g(a, b, c, d) { return a * 1000 + b * 100 + c * 10 + d; } fn f(a) { let x = new[2]; x[1] = 2; let p = &h; let q = &" + away + ".h; let y = " + away + ".y(); return g(3, " + part + ", " + part + ", 4); } "
@@ -115,7 +113,7 @@ public final class TermsThreeTest {
         for (int t = 0; t < 4; t++) {
             StringBuilder text = new StringBuilder("fn e() { } fn f(a) { return a + 1" + t + "; } fn own(a) { return f(a) * 1000 + held(&f, a); } fn held(p, a) { return p!(a); } ");
             for (int u = 0; u < 4; u++) {
-                text.append("fn g").append(u).append("(a) { let p = &").append(WORDS[u]).append(".f; return ").append(WORDS[u]).append(".f(a) * 1000 + p!(a); } fn h").append(u).append("(a) { return &").append(WORDS[u]).append(".f; } ");
+                text.append("fn g").append(u).append("(a) { let p = &").append(House.TONGUES[u]).append(".f; return ").append(House.TONGUES[u]).append(".f(a) * 1000 + p!(a); } fn h").append(u).append("(a) { return &").append(House.TONGUES[u]).append(".f; } ");
             }
             house.with(t, text.toString());
         }
@@ -131,7 +129,7 @@ public final class TermsThreeTest {
         House.sentence("The statement or call that finds none: NOTHING");
         for (int t = 0; t < 4; t++) {
             for (int u = 0; u < 4; u++) {
-                House house = new House().with(t, "fn f(a) { return " + WORDS[u] + ".no(mk()); } fn g(a) { return &" + WORDS[u] + ".no; } fn h(a) { return no(mk()); } fn k(a) { return &no; } fn mk() { mark 1; }");
+                House house = new House().with(t, "fn f(a) { return " + House.TONGUES[u] + ".no(mk()); } fn g(a) { return &" + House.TONGUES[u] + ".no; } fn h(a) { return no(mk()); } fn k(a) { return &no; } fn mk() { mark 1; }");
                 if (u != t) {
                     house.with(u, "fn no1() { } fn n() { } fn mk() { }");
                 }
@@ -208,7 +206,7 @@ public final class TermsThreeTest {
             House.due("with arguments", steps(t, "g(1, 2, 3);"), 2);
             House.due("held", steps(t, "let b = &g; b!(1);"), 3);
             House.due("two", steps(t, "h(h(1));"), 1 + 2 + 2);
-            House.due("over a border", steps(t, WORDS[other(t)] + ".g();"), 2);
+            House.due("over a border", steps(t, House.TONGUES[other(t)] + ".g();"), 2);
             House.due("one that finds none", steps(t, "no();"), 3);
             House.due("none, held", steps(t, "let b = none; b!();"), 4);
             House.due("none as a statement", steps(t, "&no;"), 2);
@@ -245,7 +243,7 @@ public final class TermsThreeTest {
         House.sentence("each x [ i ] that is worked out of an array of another TONGUE (that has such a cell)");
         for (int t = 0; t < 4; t++) {
             // let, call, and k's let, new, put and return
-            String made = "let x = " + WORDS[other(t)] + ".k(); ";
+            String made = "let x = " + House.TONGUES[other(t)] + ".k(); ";
             House.due("made", steps(t, made), 6);
             House.due("a cell", steps(t, made + "x[0];"), 8);
             House.due("the last, of none", steps(t, made + "x[1];"), 8);
@@ -264,11 +262,11 @@ public final class TermsThreeTest {
         for (int t = 0; t < 4; t++) {
             for (int n = 0; n <= 8; n++) {
                 String arguments = "1,2,3,4,5,6,7,8".substring(0, Math.max(2 * n - 1, 0));
-                House.due(n + " over a border", steps(t, WORDS[other(t)] + ".g(" + arguments + ");"), 2 + n);
-                House.due(n + " held, over a border", steps(t, "let b = &" + WORDS[other(t)] + ".g; b!(" + arguments + ");"), 3 + n);
-                House.due(n + " at home", steps(t, WORDS[t] + ".g(" + arguments + ");"), 2);
+                House.due(n + " over a border", steps(t, House.TONGUES[other(t)] + ".g(" + arguments + ");"), 2 + n);
+                House.due(n + " held, over a border", steps(t, "let b = &" + House.TONGUES[other(t)] + ".g; b!(" + arguments + ");"), 3 + n);
+                House.due(n + " at home", steps(t, House.TONGUES[t] + ".g(" + arguments + ");"), 2);
             }
-            House.due("none goes, too", steps(t, WORDS[other(t)] + ".g(none, new[1], &g);"), 3 + 3);
+            House.due("none goes, too", steps(t, House.TONGUES[other(t)] + ".g(none, new[1], &g);"), 3 + 3);
         }
     }
 
@@ -282,7 +280,7 @@ public final class TermsThreeTest {
             House.due("of a mark", steps(t, "mark none;"), 2);
             House.due("of a cell's =", steps(t, "let x = none; x[0] = 1;"), 3);
             // statement, call, return, sign, FAILURE, and one more that is turned
-            House.due("turned", steps(t, WORDS[other(t)] + ".b();"), 6);
+            House.due("turned", steps(t, House.TONGUES[other(t)] + ".b();"), 6);
         }
         House.due("throw", steps(0, "throw foo 1;"), 2);
         // two calls, three statements, one FAILURE
@@ -314,7 +312,7 @@ public final class TermsThreeTest {
         House.sentence("The 5,001st of a run .. SPENT (it isn't counted)");
         for (int t = 0; t < 4; t++) {
             int failed = t == 2 ? 0 : 1;
-            String away = WORDS[other(t)];
+            String away = House.TONGUES[other(t)];
             lastStep(t, "mark 1;", 1, 0);
             lastStep(t, "return 1;", 1, 0);
             lastStep(t, "if (0) { }", 1, 0);
@@ -334,7 +332,7 @@ public final class TermsThreeTest {
         }
         // an argument that isn't counted any more calls nothing
         for (int t = 0; t < 4; t++) {
-            String away = WORDS[other(t)];
+            String away = House.TONGUES[other(t)];
             house(t, spending(4998, away + ".g(1);")).isSpent(t, 0, 3).looks(2, 5000).looks(5, 0).looks(7, 1);
             house(t, spending(4997, "let p = &" + away + ".g; p!(1);")).isSpent(t, 0, 3).looks(2, 5000).looks(5, 0).looks(7, 1);
             house(t, spending(4999, "g();")).isSpent(t, 0, 3).looks(7, 1);
@@ -409,7 +407,7 @@ public final class TermsThreeTest {
         House.sentence("(over all TONGUES)");
         House house = new House();
         for (int t = 0; t < 4; t++) {
-            house.with(t, "fn f(a) { if (a) { return " + WORDS[other(t)] + ".f(a - 1); } return 5; }");
+            house.with(t, "fn f(a) { if (a) { return " + House.TONGUES[other(t)] + ".f(a - 1); } return 5; }");
         }
         for (int t = 0; t < 4; t++) {
             house.answersWhole(t, 0, 23, 5).looks(7, 24).looks(5, 23).looks(6, 0);
@@ -457,7 +455,7 @@ public final class TermsThreeTest {
         for (int t = 0; t < 4; t++) {
             for (int i = 0; i < parts.length; i++) {
                 for (int k = 0; k < parts.length; k++) {
-                    String pair = (parts[i] + " == " + parts[k]).replace("other", WORDS[other(t)]);
+                    String pair = (parts[i] + " == " + parts[k]).replace("other", House.TONGUES[other(t)]);
                     House house = new House().with(t, "fn f(a) { let x = new[1]; let y = new[1]; return " + pair + "; } fn g(a) { let x = new[1]; let y = new[1]; return " + pair.replace("==", "!=") + "; }").with(other(t), "fn f() { }");
                     house.answersWhole(t, 0, 0, i == k ? 1 : 0).answersWhole(t, 1, 0, i == k ? 0 : 1);
                 }
@@ -523,7 +521,7 @@ public final class TermsThreeTest {
     private static void sizes() {
         House.sentence("size ( ): of an array (else SORT; of none NOTHING)");
         for (int t = 0; t < 4; t++) {
-            House house = new House().with(t, "fn f(a) { return size(new[a]); } fn g(a) { return size(a); } fn h(a) { return size(none); } fn k(a) { return size(&f); } fn l(a) { let x = " + WORDS[other(t)] + ".m(a); return size(x); }").with(other(t), "fn m(a) { return new[a]; }");
+            House house = new House().with(t, "fn f(a) { return size(new[a]); } fn g(a) { return size(a); } fn h(a) { return size(none); } fn k(a) { return size(&f); } fn l(a) { let x = " + House.TONGUES[other(t)] + ".m(a); return size(x); }").with(other(t), "fn m(a) { return new[a]; }");
             house.answersWhole(t, 0, 0, 0).answersWhole(t, 0, 400, 400).fails(t, 1, 0, 4).fails(t, 1, 5, 4).fails(t, 2, 0, 3).fails(t, 3, 0, 4).answersWhole(t, 4, 3, 3);
         }
     }

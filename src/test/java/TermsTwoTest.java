@@ -38,10 +38,9 @@ public final class TermsTwoTest {
 
     private static void latestTakenIsTheTongues() {
         House.sentence("the latest taken is that TONGUE's (functions of ones ahead are gone)");
-        String[] words = {"throws", "codes", "values", "exits"};
         for (int t = 0; t < 4; t++) {
             int u = (t + 1) % 4;
-            House house = new House().with(t, "fn f(a) { return 1; } fn g(a) { return 2; }").with(u, "fn f(a) { return " + words[t] + ".g(a); } fn h(a) { return &" + words[t] + ".g; }");
+            House house = new House().with(t, "fn f(a) { return 1; } fn g(a) { return 2; }").with(u, "fn f(a) { return " + House.TONGUES[t] + ".g(a); } fn h(a) { return &" + House.TONGUES[t] + ".g; }");
             house.answersWhole(t, 0, 0, 1).answersWhole(t, 1, 0, 2).answersWhole(u, 0, 0, 2).answers(u, 1, 0, 64 * t + 1);
             house.with(t, "fn g(a) { return 3; }").answersWhole(t, 0, 0, 3).answersWhole(u, 0, 0, 3).answers(u, 1, 0, 64 * t);
             House.due("one function alone", house.x.call(t, 1, 0), 3);
